@@ -17,8 +17,7 @@ public final class ThirstScales {
 
     private static final int TASTER = 0, CAMEL = 1, CHILD = 2, FEVERISH = 3, INSPECTOR = 4, WELL = 5;
 
-    private final Row text = new Row(MOST_BYTES);
-    private final Reader reader = new Reader(text);
+    private final Reader reader = new Reader();
     private final Row weights = new Row(MOST_LOADS);
     private final Row laws = new Row(MOST_TASTERS);
     private final Row tastings = new Row(MOST_TASTINGS * TASTING_PARTS);
@@ -38,18 +37,18 @@ public final class ThirstScales {
         if (!isWithin(n, 1, 8)) {
             return BAD;
         }
-        if (text.size() + n > MOST_BYTES) {
+        if (reader.text.size() + n > MOST_BYTES) {
             return FULL;
         }
         for (int i = n - 1; i >= 0; i--) {
-            text.add((int) ((v >> (8 * i)) & 255));
+            reader.text.add((int) ((v >> (8 * i)) & 255));
         }
-        return text.size();
+        return reader.text.size();
     }
 
     public int clear() {
-        int had = text.size();
-        text.cutTo(0);
+        int had = reader.text.size();
+        reader.text.cutTo(0);
         return had;
     }
 
@@ -63,7 +62,7 @@ public final class ThirstScales {
         tastings.cutTo(0);
         firstIsKept = false;
         secondIsKept = false;
-        text.cutTo(0);
+        reader.text.cutTo(0);
         return reader.items;
     }
 
@@ -348,7 +347,7 @@ public final class ThirstScales {
             case 2: return now.warmth;
             case 3: return facts();
             case 4: return toldTastings();
-            case 5: return text.size();
+            case 5: return reader.text.size();
             default: return BAD;
         }
     }
@@ -670,26 +669,22 @@ public final class ThirstScales {
         }
     }
 
-    /** Reads the text into rows of its own, so that a fault leaves everything else as it was. */
+    /** Holds the text and reads it into rows of its own: a fault leaves everything else as it was. */
     private static final class Reader {
         private static final int END = 0, WRONG = 1, LOAD_WORD = 2, TASTER_WORD = 3;
         private static final int HEAT_WORD = 4, NUMBER = 5, SEMICOLON = 6;
 
+        final Row text = new Row(MOST_BYTES);
         final Row weights = new Row(MOST_LOADS);
         final Row laws = new Row(MOST_TASTERS);
         int warmth = 0;
         int items = 0;
-        private final Row bytes;
         private final Row parts = new Row(Law.PARTS);
         private boolean heatIsTold = false;
         private int place = 0;
         private int start = 0;
         private int token = END;
         private int value = 0;
-
-        Reader(Row bytes) {
-            this.bytes = bytes == null ? new Row(0) : bytes;
-        }
 
         /** The first byte of the token that was read last; the text's length behind all tokens. */
         int fault() {
@@ -770,36 +765,36 @@ public final class ThirstScales {
         }
 
         private void readToken() {
-            while (place < bytes.size() && bytes.at(place) == ' ') {
+            while (place < text.size() && text.at(place) == ' ') {
                 place++;
             }
             start = place;
-            if (place >= bytes.size()) {
+            if (place >= text.size()) {
                 token = END;
-            } else if (isDigit(bytes.at(place))) {
+            } else if (isDigit(text.at(place))) {
                 readDigits();
-            } else if (isLetter(bytes.at(place))) {
+            } else if (isLetter(text.at(place))) {
                 readLetters();
             } else {
-                token = bytes.at(place) == ';' ? SEMICOLON : WRONG;
+                token = text.at(place) == ';' ? SEMICOLON : WRONG;
                 place++;
             }
         }
 
         private void readDigits() {
             value = 0;
-            while (place < bytes.size() && isDigit(bytes.at(place))) {
+            while (place < text.size() && isDigit(text.at(place))) {
                 // a long one may wrap around here: its length makes it wrong anyway
-                value = value * 10 + bytes.at(place) - '0';
+                value = value * 10 + text.at(place) - '0';
                 place++;
             }
             int digits = place - start;
-            boolean isRight = digits == 1 || digits == 2 && bytes.at(start) != '0';
+            boolean isRight = digits == 1 || digits == 2 && text.at(start) != '0';
             token = isRight ? NUMBER : WRONG;
         }
 
         private void readLetters() {
-            while (place < bytes.size() && isLetter(bytes.at(place))) {
+            while (place < text.size() && isLetter(text.at(place))) {
                 place++;
             }
             if (isWord("load")) {
@@ -816,7 +811,7 @@ public final class ThirstScales {
                 return false;
             }
             for (int i = 0; i < word.length(); i++) {
-                if (bytes.at(start + i) != word.charAt(i)) {
+                if (text.at(start + i) != word.charAt(i)) {
                     return false;
                 }
             }

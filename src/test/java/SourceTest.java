@@ -8,8 +8,8 @@ import java.util.regex.Pattern;
 public final class SourceTest {
     private static final String[] RULED_OUT = {
         "throw", "try", "catch", "finally", "synchronized", "assert", "import", "package", "->", "::",
-        "System", "Math\\.\\w+Exact", "equals", "hashCode", "toString", "protected", "@", "null\\.",
-        "new \\w+\\(\\) \\{", "Random", "Thread", "Object",
+        "System\\.(?!arraycopy)", "\\w+Exact", "boolean equals", "int hashCode", "String toString",
+        "protected", "@", "new \\w+\\(\\) \\{", "Random", "Thread", "Object",
     };
 
     public static void main(String[] args) throws IOException {
@@ -18,7 +18,8 @@ public final class SourceTest {
         String source = Files.readString(Path.of("src/main/java/ThirstScales.java"));
         String bare = source.replaceAll("(?s)/\\*.*?\\*/", "").replaceAll("//[^\n]*", "");
         for (String words : RULED_OUT) {
-            String bounded = Character.isLetter(words.charAt(0)) ? "\\b" + words + "\\b" : words;
+            boolean isWord = words.matches("[A-Za-z ]+");
+            String bounded = isWord ? "\\b" + words + "\\b" : words;
             Matcher found = Pattern.compile(bounded).matcher(bare);
             checks.due("'" + words + "' stands in the source", found.find() ? 1 : 0, 0);
         }
