@@ -1,7 +1,7 @@
 import java.util.function.Supplier;
 import java.util.function.ToLongFunction;
 
-/** What the tests share: counting wrong answers, typing a text, looking at all of an object. */
+/** What the tests share: counting wrong answers, looking at all of an object. */
 final class Checks {
     private int wrong = 0;
     private int asked = 0;
@@ -9,6 +9,11 @@ final class Checks {
 
     void about(String what) {
         about = what;
+    }
+
+    /** What is asked next stands or falls with these words of the document. */
+    void sentence(int promise, String words) {
+        about = "promise " + promise + ", \"" + words + "\"";
     }
 
     void due(String call, long got, long want) {
@@ -27,12 +32,11 @@ final class Checks {
         }
     }
 
-    /** A refused call answers its code and changes nothing that can be asked. */
-    void refused(String call, long code, Supplier<ThirstScales> world, ToLongFunction<ThirstScales> ask) {
+    /** A call that answers this, and behind which all that can be asked is as in a world without it. */
+    void changesNothing(String call, long want, Supplier<ThirstScales> world, ToLongFunction<ThirstScales> ask) {
         ThirstScales x = world.get();
-        String before = all(x);
-        due(call, ask.applyAsLong(x), code);
-        due("what is behind " + call, all(x), before);
+        due(call, ask.applyAsLong(x), want);
+        due("what is behind " + call, whole(x), whole(world.get()));
     }
 
     void end() {
@@ -42,43 +46,48 @@ final class Checks {
         }
     }
 
-    static void type(ThirstScales x, String text) {
-        for (int i = 0; i < text.length(); i++) {
-            x.type(text.charAt(i), 1);
-        }
-    }
-
-    static ThirstScales read(String text) {
-        ThirstScales x = new ThirstScales();
-        type(x, text);
-        if (x.gate() < 0) {
-            throw new IllegalStateException("a text of the tests has a fault: " + text);
-        }
-        return x;
-    }
-
-    static String all(ThirstScales x) {
+    /** The images and the text show themselves only when they are used: the object is spent by this. */
+    static String whole(ThirstScales x) {
         StringBuilder s = new StringBuilder();
-        for (int what = 0; what <= 5; what++) {
-            s.append(x.count(what)).append(' ');
+        addLasting(s, x);
+        addNow(s, x);
+        for (int image = 1; image >= 0; image--) {
+            s.append(" back ").append(x.back(image));
+            addNow(s, x);
         }
-        s.append("trace ").append(x.trace()).append(" loads");
-        for (int l = 0; l < 5; l++) {
+        s.append(" gate ").append(x.gate());
+        addLasting(s, x);
+        addNow(s, x);
+        return s.toString();
+    }
+
+    private static void addLasting(StringBuilder s, ThirstScales x) {
+        s.append(" trace ").append(x.trace()).append(" told ").append(x.count(4));
+        for (int what = 0; what <= 4; what++) {
+            s.append(' ').append(x.learnt(what));
+        }
+        s.append(" bytes ").append(x.count(5)).append(" loads ").append(x.count(0));
+        for (int l = 0; l <= x.count(0); l++) {
             s.append(' ').append(x.load(l));
         }
-        for (int t = 0; t < 6; t++) {
-            s.append(" taster");
-            for (int what = 0; what <= 4; what++) {
+        s.append(" tasters ").append(x.count(1));
+        for (int t = 0; t <= x.count(1); t++) {
+            for (int what = 0; what <= 3; what++) {
                 s.append(' ').append(x.taster(t, what));
             }
         }
-        for (int i = 0; i < 12; i++) {
-            s.append(" known");
+    }
+
+    private static void addNow(StringBuilder s, ThirstScales x) {
+        s.append(" heat ").append(x.count(2)).append(" licks");
+        for (int t = 0; t <= x.count(1); t++) {
+            s.append(' ').append(x.taster(t, 4));
+        }
+        s.append(" known ").append(x.count(3));
+        for (int i = 0; i <= x.count(3); i++) {
             for (int what = 0; what <= 5; what++) {
                 s.append(' ').append(x.known(i, what));
             }
         }
-        s.append(" learnt ").append(x.learnt(0));
-        return s.toString();
     }
 }

@@ -2,8 +2,6 @@ import java.util.function.ToLongFunction;
 
 /** Promise by promise: ordinary numbers, the edges that the document names, and wrong ones. */
 public final class PromisesTest {
-    private static final String TEXT =
-        "load 20;load 60;load 0;taster 1 2 7 0;taster 3 5 9 2;taster 9 9 1 3;heat 2;";
     private static final int FAR = Integer.MAX_VALUE, LOW = Integer.MIN_VALUE;
     private static final Checks CHECKS = new Checks();
 
@@ -51,47 +49,12 @@ public final class PromisesTest {
 
     /** Refused by an object that holds some of everything. */
     private static void refused(String call, long code, ToLongFunction<ThirstScales> ask) {
-        CHECKS.refused(call, code, PromisesTest::busy, ask);
+        CHECKS.changesNothing(call, code, Worlds::busy, ask);
     }
 
     /** Refused by an object that has no room left for anything. */
     private static void refusedFull(String call, long code, ToLongFunction<ThirstScales> ask) {
-        CHECKS.refused(call, code, PromisesTest::full, ask);
-    }
-
-    private static ThirstScales busy() {
-        ThirstScales x = Checks.read(TEXT);
-        x.weighs(0, 0);
-        x.weighs(1, 0);
-        x.weighs(1, 1);
-        x.says(2, 0, 9);
-        x.told(10, 0, 0, 4);
-        x.mark(4, 1);
-        x.keep(0);
-        x.jug(0, 2, 1, 30, 0);
-        Checks.type(x, "load 1");
-        return x;
-    }
-
-    private static ThirstScales full() {
-        ThirstScales x = Checks.read(TEXT);
-        for (int i = 0; i < 6; i++) {
-            x.weighs(1, 0);
-            x.says(0, 1, 3);
-        }
-        for (int i = 0; i < 8; i++) {
-            x.told(10, 0, 0, 4);
-        }
-        for (int i = 0; i < 25; i++) {
-            x.type(0x6c6f616420313b20L, 8);
-        }
-        return x;
-    }
-
-    private static int gateOf(String text) {
-        ThirstScales x = new ThirstScales();
-        Checks.type(x, text);
-        return x.gate();
+        CHECKS.changesNothing(call, code, Worlds::full, ask);
     }
 
     private static void newObject() {
@@ -143,7 +106,7 @@ public final class PromisesTest {
 
     private static void clearing() {
         promise(3);
-        ThirstScales x = busy();
+        ThirstScales x = Worlds.busy();
         due("clear()", x.clear(), 6);
         due("clear()", x.clear(), 0);
         due("count(5)", x.count(5), 0);
@@ -152,56 +115,56 @@ public final class PromisesTest {
 
     private static void gateReads() {
         promise(4);
-        due("no items", gateOf(""), 0);
-        due("blanks alone", gateOf("   "), 0);
-        due("one", gateOf("load 5;"), 1);
-        due("three", gateOf("load 5;heat 0;load 0;"), 3);
-        due("without blanks", gateOf("load5;taster1 0 1 0;heat9;"), 3);
-        due("blanks all over", gateOf("  load   60  ;  taster  9  9  9  3  ;  heat  9  ;  "), 3);
-        due("five loads, six tasters, heat", gateOf("load 1;load 1;load 1;load 1;load 1;heat 1;"
+        due("no items", Worlds.gateOf(""), 0);
+        due("blanks alone", Worlds.gateOf("   "), 0);
+        due("one", Worlds.gateOf("load 5;"), 1);
+        due("three", Worlds.gateOf("load 5;heat 0;load 0;"), 3);
+        due("without blanks", Worlds.gateOf("load5;taster1 0 1 0;heat9;"), 3);
+        due("blanks all over", Worlds.gateOf("  load   60  ;  taster  9  9  9  3  ;  heat  9  ;  "), 3);
+        due("five loads, six tasters, heat", Worlds.gateOf("load 1;load 1;load 1;load 1;load 1;heat 1;"
             + "taster1 0 1 0;taster1 0 1 0;taster1 0 1 0;taster1 0 1 0;taster1 0 1 0;taster1 0 1 0;"), 12);
     }
 
     private static void gateFaults() {
         promise(4);
-        due("a semicolon alone", gateOf(";"), -10);
-        due("a number alone", gateOf("  5"), -12);
-        due("a tab", gateOf("load\t5;"), -14);
-        due("a capital letter", gateOf("loadA5;"), -14);
-        due("a word too long", gateOf("loads 5;"), -10);
-        due("a word but for its first letter", gateOf("road 5;"), -10);
-        due("a word but for its last letter", gateOf("load 5;tasted 1 0 1 0;"), -17);
-        due("a word with a z", gateOf("loadz 5;"), -10);
-        due("a word too short", gateOf("load 5; loa"), -18);
-        due("a word where a number is due", gateOf("load heat 5;"), -15);
-        due("a number where ; is due", gateOf("load 5 5;"), -17);
-        due("61", gateOf("load 61;"), -15);
-        due("100", gateOf("load 100;"), -15);
-        due("a long number", gateOf("load 4294967301;"), -15);
-        due("00", gateOf("load 00;"), -15);
-        due("01", gateOf("load 01;"), -15);
-        due("A 0", gateOf("taster 0 0 1 0;"), -17);
-        due("A 10", gateOf("taster 10 0 1 0;"), -17);
-        due("B 10", gateOf("taster 1 10 1 0;"), -19);
-        due("D 0", gateOf("taster 1 0 0 0;"), -21);
-        due("T 4", gateOf("taster 1 0 1 4;"), -23);
-        due("heat 10", gateOf("heat 10;"), -15);
-        due("heat again", gateOf("heat 0; heat 0;"), -18);
-        due("a sixth load", gateOf("load1;load1;load1;load1;load1; load 1;"), -41);
-        due("a seventh taster", gateOf("taster1 0 1 0;taster1 0 1 0;taster1 0 1 0;"
+        due("a semicolon alone", Worlds.gateOf(";"), -10);
+        due("a number alone", Worlds.gateOf("  5"), -12);
+        due("a tab", Worlds.gateOf("load\t5;"), -14);
+        due("a capital letter", Worlds.gateOf("loadA5;"), -14);
+        due("a word too long", Worlds.gateOf("loads 5;"), -10);
+        due("a word but for its first letter", Worlds.gateOf("road 5;"), -10);
+        due("a word but for its last letter", Worlds.gateOf("load 5;tasted 1 0 1 0;"), -17);
+        due("a word with a z", Worlds.gateOf("loadz 5;"), -10);
+        due("a word too short", Worlds.gateOf("load 5; loa"), -18);
+        due("a word where a number is due", Worlds.gateOf("load heat 5;"), -15);
+        due("a number where ; is due", Worlds.gateOf("load 5 5;"), -17);
+        due("61", Worlds.gateOf("load 61;"), -15);
+        due("100", Worlds.gateOf("load 100;"), -15);
+        due("a long number", Worlds.gateOf("load 4294967301;"), -15);
+        due("00", Worlds.gateOf("load 00;"), -15);
+        due("01", Worlds.gateOf("load 01;"), -15);
+        due("A 0", Worlds.gateOf("taster 0 0 1 0;"), -17);
+        due("A 10", Worlds.gateOf("taster 10 0 1 0;"), -17);
+        due("B 10", Worlds.gateOf("taster 1 10 1 0;"), -19);
+        due("D 0", Worlds.gateOf("taster 1 0 0 0;"), -21);
+        due("T 4", Worlds.gateOf("taster 1 0 1 4;"), -23);
+        due("heat 10", Worlds.gateOf("heat 10;"), -15);
+        due("heat again", Worlds.gateOf("heat 0; heat 0;"), -18);
+        due("a sixth load", Worlds.gateOf("load1;load1;load1;load1;load1; load 1;"), -41);
+        due("a seventh taster", Worlds.gateOf("taster1 0 1 0;taster1 0 1 0;taster1 0 1 0;"
             + "taster1 0 1 0;taster1 0 1 0;taster1 0 1 0;taster 0"), -94);
-        due("too early behind a word", gateOf("load"), -14);
-        due("too early behind a number", gateOf("load 1"), -16);
-        due("too early behind blanks", gateOf("taster 1 2  "), -22);
-        due("the first fault of two", gateOf("load 61; ?"), -15);
-        CHECKS.refused("gate() with a fault behind right items", -10 - 21, () -> {
-            ThirstScales x = busy();
+        due("too early behind a word", Worlds.gateOf("load"), -14);
+        due("too early behind a number", Worlds.gateOf("load 1"), -16);
+        due("too early behind blanks", Worlds.gateOf("taster 1 2  "), -22);
+        due("the first fault of two", Worlds.gateOf("load 61; ?"), -15);
+        CHECKS.changesNothing("gate() with a fault behind right items", -10 - 21, () -> {
+            ThirstScales x = Worlds.busy();
             x.clear();
-            Checks.type(x, "load 9;heat 1;load 9 ?");
+            Worlds.type(x, "load 9;heat 1;load 9 ?");
             return x;
         }, y -> y.gate());
         refused("gate() too early", -16, y -> y.gate());
-        ThirstScales x = busy();
+        ThirstScales x = Worlds.busy();
         x.gate();
         x.type(';', 1);
         due("the text of a fault may go on", x.gate(), 1);
@@ -209,7 +172,7 @@ public final class PromisesTest {
 
     private static void gateForgets() {
         promise(4);
-        ThirstScales x = busy();
+        ThirstScales x = Worlds.busy();
         x.keep(1);
         x.heat(7);
         x.type(';', 1);
@@ -226,9 +189,9 @@ public final class PromisesTest {
         due("back(1)", x.back(1), -2);
         due("night()", x.night(), 0);
         due("trace()", x.trace(), before);
-        x = busy();
+        x = Worlds.busy();
         x.clear();
-        Checks.type(x, TEXT);
+        Worlds.type(x, Worlds.TEXT);
         x.gate();
         due("no licks any more", x.taster(1, 4), 0);
         x.weighs(1, 1);
@@ -241,7 +204,7 @@ public final class PromisesTest {
 
     private static void loads() {
         promise(5);
-        ThirstScales x = busy();
+        ThirstScales x = Worlds.busy();
         due("load(0)", x.load(0), 20);
         due("load(1)", x.load(1), 60);
         due("load(2)", x.load(2), 0);
@@ -253,7 +216,7 @@ public final class PromisesTest {
 
     private static void tasters() {
         promise(6);
-        ThirstScales x = busy();
+        ThirstScales x = Worlds.busy();
         int[][] due = {{1, 2, 7, 0, 2}, {3, 5, 9, 2, 2}, {9, 9, 1, 3, 1}};
         for (int t = 0; t < 3; t++) {
             for (int what = 0; what <= 4; what++) {
@@ -269,7 +232,7 @@ public final class PromisesTest {
 
     private static void cups() {
         promise(7);
-        ThirstScales x = busy();
+        ThirstScales x = Worlds.busy();
         due("cups(0, 20, 0)", x.cups(0, 20, 0), 3);
         due("cups(1, 20, 0)", x.cups(1, 20, 0), 7);
         due("cups(1, 20, 3)", x.cups(1, 20, 3), 6);
@@ -287,7 +250,7 @@ public final class PromisesTest {
 
     private static void weighings() {
         promise(8);
-        ThirstScales x = Checks.read(TEXT);
+        ThirstScales x = Worlds.read(Worlds.TEXT);
         due("weighs(1, 0)", x.weighs(1, 0), 7);
         due("weighs(1, 0), tired", x.weighs(1, 0), 7);
         due("weighs(1, 0), more tired", x.weighs(1, 0), 7);
@@ -311,7 +274,7 @@ public final class PromisesTest {
 
     private static void sayings() {
         promise(9);
-        ThirstScales x = Checks.read(TEXT);
+        ThirstScales x = Worlds.read(Worlds.TEXT);
         x.weighs(1, 1);
         due("says(1, 0, 0)", x.says(1, 0, 0), 2);
         due("says(1, 2, 99)", x.says(1, 2, 99), 3);
@@ -330,7 +293,7 @@ public final class PromisesTest {
 
     private static void jugs() {
         promise(10);
-        ThirstScales x = Checks.read(TEXT);
+        ThirstScales x = Worlds.read(Worlds.TEXT);
         due("enough for both", x.jug(0, 1, 0, 999, 0), 10);
         due("what the second one did", x.jug(0, 2, 0, 999, 1), 191);
         due("some for the second", x.jug(0, 2, 0, 5, 1), 2);
@@ -350,12 +313,12 @@ public final class PromisesTest {
         refused("jug(0, 1, 0, -1, 0)", -1, y -> y.jug(0, 1, 0, -1, 0));
         refused("jug(0, 1, 0, 5, 2)", -1, y -> y.jug(0, 1, 0, 5, 2));
         refused("jug(0, 1, 0, 5, -1)", -1, y -> y.jug(0, 1, 0, 5, -1));
-        due("room for a jug when all is known", full().jug(0, 1, 0, 2, 0), 2);
+        due("room for a jug when all is known", Worlds.full().jug(0, 1, 0, 2, 0), 2);
     }
 
     private static void nights() {
         promise(11);
-        ThirstScales x = busy();
+        ThirstScales x = Worlds.busy();
         due("night()", x.night(), 5);
         due("night()", x.night(), 0);
         due("taster(1, 4)", x.taster(1, 4), 0);
@@ -365,7 +328,7 @@ public final class PromisesTest {
 
     private static void heats() {
         promise(12);
-        ThirstScales x = busy();
+        ThirstScales x = Worlds.busy();
         due("heat(9)", x.heat(9), 2);
         due("heat(0)", x.heat(0), 9);
         due("count(2)", x.count(2), 0);
@@ -377,7 +340,7 @@ public final class PromisesTest {
 
     private static void undoing() {
         promise(13);
-        ThirstScales x = busy();
+        ThirstScales x = Worlds.busy();
         due("a saying", x.undo(), 3);
         due("no lick less by it", x.taster(2, 4), 1);
         due("a weighing", x.undo(), 2);
@@ -386,8 +349,8 @@ public final class PromisesTest {
         due("a weighing of the day ahead", x.undo(), 1);
         due("0 at least", x.taster(1, 4), 0);
         due("the last", x.undo(), 0);
-        CHECKS.refused("undo()", -2, () -> Checks.read(TEXT), y -> y.undo());
-        ThirstScales filled = full();
+        CHECKS.changesNothing("undo()", -2, () -> Worlds.read(Worlds.TEXT), y -> y.undo());
+        ThirstScales filled = Worlds.full();
         due("undo()", filled.undo(), 11);
         due("room again", filled.says(0, 0, 5), 12);
         due("known(11, 4)", filled.known(11, 4), 5);
@@ -395,7 +358,7 @@ public final class PromisesTest {
 
     private static void knowing() {
         promise(14);
-        ThirstScales x = busy();
+        ThirstScales x = Worlds.busy();
         int[][] due = {{0, 0, 2, 0, 3, 0}, {1, 0, 2, 0, 7, 0}, {1, 1, 2, 1, 20, 0}, {2, 0, 2, 0, 9, 1}};
         for (int i = 0; i < 4; i++) {
             for (int what = 0; what <= 5; what++) {
@@ -412,7 +375,7 @@ public final class PromisesTest {
 
     private static void canBe() {
         promise(15);
-        ThirstScales x = Checks.read("load 20;load 0;taster 1 2 7 0;taster 3 5 9 2;heat 2;");
+        ThirstScales x = Worlds.read("load 20;load 0;taster 1 2 7 0;taster 3 5 9 2;heat 2;");
         due("canBe(0, 0)", x.canBe(0, 0), 61);
         due("canBe(0, 1)", x.canBe(0, 1), 0);
         due("canBe(0, 2)", x.canBe(0, 2), 60);
@@ -429,7 +392,7 @@ public final class PromisesTest {
         x.says(0, 0, 99);
         due("another heat, a night, a saying", x.canBe(0, 0), 3);
         due("another load", x.canBe(1, 0), 61);
-        ThirstScales none = Checks.read("load 0;load 60;taster 1 0 1 0;");
+        ThirstScales none = Worlds.read("load 0;load 60;taster 1 0 1 0;");
         none.weighs(0, 0);
         none.weighs(0, 1);
         due("0 alone", none.canBe(0, 2), 0);
@@ -445,7 +408,7 @@ public final class PromisesTest {
 
     private static void nextTaster() {
         promise(16);
-        ThirstScales x = Checks.read("load 0;taster 1 0 9 0;taster 1 0 4 3;taster 1 0 4 0;");
+        ThirstScales x = Worlds.read("load 0;taster 1 0 9 0;taster 1 0 4 3;taster 1 0 4 0;");
         due("the first of two", x.next(0, 0), 1);
         due("left at worst", x.next(0, 1), 4);
         x.jug(0, 1, 0, 9, 0);
@@ -453,15 +416,15 @@ public final class PromisesTest {
         due("left at worst", x.next(0, 1), 4);
         x.heat(1);
         due("nothing is known by it", x.count(3), 0);
-        due("the first span is shorter", Checks.read("load 0;taster 1 8 9 0;").next(0, 1), 9);
-        due("the last span is shorter", Checks.read("load 0;taster 1 0 9 0;").next(0, 1), 9);
-        ThirstScales hot = Checks.read("load 0;taster 1 0 9 0;taster 1 1 8 0;");
+        due("the first span is shorter", Worlds.read("load 0;taster 1 8 9 0;").next(0, 1), 9);
+        due("the last span is shorter", Worlds.read("load 0;taster 1 0 9 0;").next(0, 1), 9);
+        ThirstScales hot = Worlds.read("load 0;taster 1 0 9 0;taster 1 1 8 0;");
         hot.weighs(0, 0);
         due("by this heat", hot.next(0, 1), 7);
         hot.heat(4);
         due("by another heat", hot.next(0, 0), 0);
         due("by another heat", hot.next(0, 1), 5);
-        ThirstScales none = Checks.read("load 5;");
+        ThirstScales none = Worlds.read("load 5;");
         due("no tasters", none.next(0, 0), -9);
         due("no tasters", none.next(0, 1), -9);
         due("BAD ahead of NONE", none.next(0, 2), -1);
@@ -474,7 +437,7 @@ public final class PromisesTest {
 
     private static void enough() {
         promise(17);
-        ThirstScales x = Checks.read("load 20;load 21;load 60;taster 1 0 7 0;taster 1 2 7 0;taster 3 5 9 2;heat 2;");
+        ThirstScales x = Worlds.read("load 20;load 21;load 60;taster 1 0 7 0;taster 1 2 7 0;taster 3 5 9 2;heat 2;");
         due("enough(0, 1)", x.enough(0, 1), -9);
         due("enough(0, 2)", x.enough(0, 2), 2);
         due("enough(0, 3)", x.enough(0, 3), 1);
@@ -485,25 +448,25 @@ public final class PromisesTest {
         x.weighs(2, 0);
         due("by licks that grow", x.enough(0, 1), 3);
         due("nothing changes", x.taster(2, 4), 1);
-        ThirstScales tired = Checks.read("load 20;taster 1 0 4 1;taster 1 0 2 0;");
+        ThirstScales tired = Worlds.read("load 20;taster 1 0 4 1;taster 1 0 2 0;");
         tired.weighs(1, 0);
         due("20 or 21", tired.canBe(0, 0), 2);
         due("by his second lick alone", tired.enough(0, 1), 2);
         tired.jug(0, 1, 0, 0, 0);
         due("which is his next now", tired.enough(0, 1), 1);
-        ThirstScales none = Checks.read("load 5;");
+        ThirstScales none = Worlds.read("load 5;");
         due("no tasters", none.enough(0, 61), 0);
         due("no tasters", none.enough(0, 60), -9);
         refused("enough(3, 1)", -1, y -> y.enough(3, 1));
         refused("enough(-1, 1)", -1, y -> y.enough(-1, 1));
         refused("enough(0, 0)", -1, y -> y.enough(0, 0));
         refused("enough(0, 62)", -1, y -> y.enough(0, 62));
-        due("when all is known, too", full().enough(2, 61), 0);
+        due("when all is known, too", Worlds.full().enough(2, 61), 0);
     }
 
     private static void heavier() {
         promise(18);
-        ThirstScales x = Checks.read("load 20;load 21;load 60;taster 1 0 1 0;taster 1 0 9 0;");
+        ThirstScales x = Worlds.read("load 20;load 21;load 60;taster 1 0 1 0;taster 1 0 9 0;");
         due("heavier(2, 0)", x.heavier(2, 0), 0);
         x.weighs(1, 0);
         x.weighs(1, 1);
@@ -516,7 +479,7 @@ public final class PromisesTest {
         due("not weighed", x.heavier(2, 0), 0);
         x.weighs(0, 2);
         due("above", x.heavier(2, 0), 1);
-        ThirstScales same = Checks.read("load 20;load 20;taster 1 0 1 0;");
+        ThirstScales same = Worlds.read("load 20;load 20;taster 1 0 1 0;");
         same.weighs(0, 0);
         same.weighs(0, 1);
         due("as heavy", same.heavier(0, 1), 0);
@@ -549,7 +512,7 @@ public final class PromisesTest {
 
     private static void forgetting() {
         promise(20);
-        ThirstScales x = full();
+        ThirstScales x = Worlds.full();
         due("forget()", x.forget(), 8);
         due("forget()", x.forget(), 0);
         due("learnt(0)", x.learnt(0), 3240);
@@ -621,7 +584,7 @@ public final class PromisesTest {
 
     private static void bribes() {
         promise(23);
-        ThirstScales x = Checks.read(TEXT);
+        ThirstScales x = Worlds.read(Worlds.TEXT);
         due("nobody", x.bribed(), 0);
         x.says(0, 0, 3);
         x.says(1, 0, 7);
@@ -640,17 +603,17 @@ public final class PromisesTest {
         x.undo();
         x.undo();
         due("undone", x.bribed(), 4);
-        ThirstScales first = Checks.read(TEXT);
+        ThirstScales first = Worlds.read(Worlds.TEXT);
         first.says(0, 0, 4);
         due("the first that is known", first.bribed(), 1);
-        ThirstScales weighed = Checks.read(TEXT);
+        ThirstScales weighed = Worlds.read(Worlds.TEXT);
         weighed.weighs(2, 1);
         due("a weighing is no bribe", weighed.bribed(), 0);
     }
 
     private static void memories() {
         promise(24);
-        ThirstScales x = Checks.read("load 7;taster 1 0 1 0;taster 1 0 9 3;heat 1;");
+        ThirstScales x = Worlds.read("load 7;taster 1 0 1 0;taster 1 0 9 3;heat 1;");
         due("memory(0, 5, 0, 0)", x.memory(0, 5, 0, 0), 4);
         due("memory(0, 5, 0, 1)", x.memory(0, 5, 0, 1), 4);
         due("memory(0, 5, 3, 0)", x.memory(0, 5, 3, 0), 1);
@@ -681,7 +644,7 @@ public final class PromisesTest {
 
     private static void marks() {
         promise(25);
-        ThirstScales x = Checks.read(TEXT);
+        ThirstScales x = Worlds.read(Worlds.TEXT);
         x.jug(1, 2, 0, 0, 0);
         x.weighs(1, 0);
         int[][] due = {{1, 1, 1, 2, 1, 3}, {3, 5, 1, 10, 2, 5}, {9, 10, 6, 20, 8, 11}};
@@ -693,7 +656,7 @@ public final class PromisesTest {
                 due("the trace of it", x.trace() - before, traced[kind]);
             }
         }
-        due("below 0", Checks.read("taster 1 0 1 3;").mark(2, 0), -2);
+        due("below 0", Worlds.read("taster 1 0 1 3;").mark(2, 0), -2);
         refused("mark(6, 0)", -1000000, y -> y.mark(6, 0));
         refused("mark(-1, 0)", -1000000, y -> y.mark(-1, 0));
         refused("mark(0, 3)", -1000000, y -> y.mark(0, 3));
@@ -702,7 +665,7 @@ public final class PromisesTest {
     }
 
     private static void images() {
-        ThirstScales x = busy();
+        ThirstScales x = Worlds.busy();
         promise(26);
         due("keep(1)", x.keep(1), 4);
         due("the trace is no part of it", x.trace(), 10101);
@@ -738,7 +701,7 @@ public final class PromisesTest {
 
     private static void counts() {
         promise(28);
-        ThirstScales x = busy();
+        ThirstScales x = Worlds.busy();
         int[] due = {3, 3, 2, 4, 1, 6};
         for (int what = 0; what <= 5; what++) {
             due("count(" + what + ")", x.count(what), due[what]);
@@ -750,7 +713,7 @@ public final class PromisesTest {
 
     private static void traces() {
         promise(29);
-        ThirstScales x = busy();
+        ThirstScales x = Worlds.busy();
         due("trace()", x.trace(), 10101);
         x.mark(5, 0);
         x.back(0);
