@@ -11,11 +11,6 @@ final class Checks {
         about = what;
     }
 
-    /** What is asked next stands or falls with these words of the document. */
-    void sentence(int promise, String words) {
-        about = "promise " + promise + ", \"" + words + "\"";
-    }
-
     void due(String call, long got, long want) {
         asked++;
         if (got != want) {

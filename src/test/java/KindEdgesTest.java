@@ -1,11 +1,6 @@
-import java.util.function.Supplier;
-import java.util.function.ToLongFunction;
-
 /** Kinds, images, counts (promises 25 to 29): a test for each sentence that names an edge. */
-public final class KindEdgesTest {
-    private static final int FAR = Integer.MAX_VALUE, LOW = Integer.MIN_VALUE;
+public final class KindEdgesTest extends Asking {
     private static final int[] TRACED = {1, 11, 101, 1011, 10101, 100001};
-    private static final Checks CHECKS = new Checks();
 
     public static void main(String[] args) {
         markBounds();
@@ -31,16 +26,8 @@ public final class KindEdgesTest {
         CHECKS.end();
     }
 
-    private static void due(String call, long got, long want) {
-        CHECKS.due(call, got, want);
-    }
-
-    private static void same(String call, long want, Supplier<ThirstScales> world, ToLongFunction<ThirstScales> ask) {
-        CHECKS.changesNothing(call, want, world, ask);
-    }
-
     private static void markBounds() {
-        CHECKS.sentence(25, "NO: BAD");
+        sentence(25, "NO: BAD");
         for (int kind : new int[] {-1, 6, 7, 99, FAR, LOW}) {
             same("mark(" + kind + ", 0)", -1000000, Worlds::busy, x -> x.mark(kind, 0));
         }
@@ -55,7 +42,7 @@ public final class KindEdgesTest {
     }
 
     private static void markOfEachKind() {
-        CHECKS.sentence(25, "0 TASTER; 1 CAMEL, 2 CHILD, 5 WELL (each under TASTER); 3 FEVERISH (under CAMEL); 4 INSPECTOR");
+        sentence(25, "0 TASTER; 1 CAMEL, 2 CHILD, 5 WELL (each under TASTER); 3 FEVERISH (under CAMEL); 4 INSPECTOR");
         ThirstScales x = Worlds.most();
         Worlds.jugged(x, 4, 5, 2);
         int[][] due = {{1, 1, 1, 2, 1, 3}, {3, 3, 1, 6, 2, 5}, {9, 9, 6, 18, 8, 11}, {1, 1, 1, 2, 4, 3},
@@ -70,16 +57,16 @@ public final class KindEdgesTest {
     }
 
     private static void markByLicksAndHeat() {
-        CHECKS.sentence(25, "CAMEL up, and LICKS");
+        sentence(25, "CAMEL up, and LICKS");
         ThirstScales x = Worlds.jugged(Worlds.given(), 1, 2, 200);
         due("200 licks", x.mark(1, 1), 203);
-        CHECKS.sentence(25, "FEVERISH up times 2");
+        sentence(25, "FEVERISH up times 2");
         due("the licks, too, times 2", x.mark(3, 1), 406);
         x.night();
         due("none", x.mark(3, 1), 6);
-        CHECKS.sentence(25, "CAMEL up, and LICKS");
+        sentence(25, "CAMEL up, and LICKS");
         due("none", x.mark(1, 1), 3);
-        CHECKS.sentence(25, "WELL up, and HEAT");
+        sentence(25, "WELL up, and HEAT");
         x.heat(9);
         due("by 9", x.mark(5, 1), 12);
         x.heat(0);
@@ -87,19 +74,19 @@ public final class KindEdgesTest {
     }
 
     private static void markBelowZero() {
-        CHECKS.sentence(25, "CHILD up less T");
+        sentence(25, "CHILD up less T");
         ThirstScales x = Worlds.read("taster 1 0 1 3;taster 3 0 1 3;taster 9 0 1 0;");
         due("below 0", x.mark(2, 0), -2);
         due("0", x.mark(2, 1), 0);
         due("no T", x.mark(2, 2), 9);
-        CHECKS.sentence(25, "INSPECTOR up, and his number");
+        sentence(25, "INSPECTOR up, and his number");
         due("below 0", x.mark(4, 0), -2);
         due("his number 1", x.mark(4, 1), 1);
         due("his number 2", x.mark(4, 2), 11);
     }
 
     private static void markTraces() {
-        CHECKS.sentence(25, "(numbers in brackets come to THE TRACE [..] as often as mark() asks that body");
+        sentence(25, "(numbers in brackets come to THE TRACE [..] as often as mark() asks that body");
         for (int kind = 0; kind <= 5; kind++) {
             ThirstScales x = Worlds.given();
             for (int times = 1; times <= 3; times++) {
@@ -110,7 +97,7 @@ public final class KindEdgesTest {
     }
 
     private static void keepBounds() {
-        CHECKS.sentence(26, "IMAGES 0, 1 [..] BAD");
+        sentence(26, "IMAGES 0, 1 [..] BAD");
         for (int image : new int[] {-1, 2, 3, FAR, LOW}) {
             same("keep(" + image + ")", -1, Worlds::busy, x -> x.keep(image));
             same("keep(" + image + ")", -1, Worlds::full, x -> x.keep(image));
@@ -118,7 +105,7 @@ public final class KindEdgesTest {
     }
 
     private static void keepNow() {
-        CHECKS.sentence(26, "An IMAGE is kept: how much is known");
+        sentence(26, "An IMAGE is kept: how much is known");
         for (int image = 0; image <= 1; image++) {
             due("nothing", new ThirstScales().keep(image), 0);
             due("four", Worlds.busy().keep(image), 4);
@@ -136,7 +123,7 @@ public final class KindEdgesTest {
     }
 
     private static void keepAgain() {
-        CHECKS.sentence(26, "IMAGES 0, 1 keep NOW");
+        sentence(26, "IMAGES 0, 1 keep NOW");
         ThirstScales x = Worlds.given();
         x.weighs(0, 0);
         x.keep(0);
@@ -155,7 +142,7 @@ public final class KindEdgesTest {
     }
 
     private static void keepFull() {
-        CHECKS.sentence(26, "what is known");
+        sentence(26, "what is known");
         ThirstScales x = Worlds.full();
         x.keep(0);
         while (x.undo() > 0) {
@@ -172,16 +159,16 @@ public final class KindEdgesTest {
     }
 
     private static void backBounds() {
-        CHECKS.sentence(27, "IMAGES 0, 1 [..] BAD");
+        sentence(27, "IMAGES 0, 1 [..] BAD");
         for (int image : new int[] {-1, 2, 3, FAR, LOW}) {
             same("back(" + image + ")", -1, Worlds::busy, x -> x.back(image));
-            CHECKS.sentence(27, "the first of these: BAD [..], STATE (as told), FULL");
+            sentence(27, "the first of these: BAD [..], STATE (as told), FULL");
             same("back(" + image + ") of none", -1, ThirstScales::new, x -> x.back(image));
         }
     }
 
     private static void backNotKept() {
-        CHECKS.sentence(27, "STATE: none was kept");
+        sentence(27, "STATE: none was kept");
         same("back(0)", -2, Worlds::full, x -> x.back(0));
         same("back(1)", -2, Worlds::full, x -> x.back(1));
         same("back(1), but 0 was", -2, Worlds::busy, x -> x.back(1));
@@ -193,7 +180,7 @@ public final class KindEdgesTest {
     }
 
     private static void backAll() {
-        CHECKS.sentence(27, "All of that becomes as an IMAGE has it: how much is known");
+        sentence(27, "All of that becomes as an IMAGE has it: how much is known");
         ThirstScales x = Worlds.most();
         x.weighs(5, 4);
         x.says(4, 3, 77);
@@ -224,7 +211,7 @@ public final class KindEdgesTest {
     }
 
     private static void backNothingElse() {
-        CHECKS.sentence(27, "nothing else");
+        sentence(27, "nothing else");
         ThirstScales x = Worlds.busy();
         x.told(60, 0, 0, 20);
         x.mark(0, 0);
@@ -247,7 +234,7 @@ public final class KindEdgesTest {
     }
 
     private static void backAgain() {
-        CHECKS.sentence(27, "All of that becomes as an IMAGE has it");
+        sentence(27, "All of that becomes as an IMAGE has it");
         ThirstScales x = Worlds.busy();
         due("back(0)", x.back(0), 4);
         x.weighs(2, 2);
@@ -263,7 +250,7 @@ public final class KindEdgesTest {
     }
 
     private static void imagesGone() {
-        CHECKS.sentence(27, "IMAGES are gone");
+        sentence(27, "IMAGES are gone");
         ThirstScales x = Worlds.busy();
         x.keep(1);
         due("a fault", x.gate(), -16);
@@ -278,7 +265,7 @@ public final class KindEdgesTest {
     }
 
     private static void countBounds() {
-        CHECKS.sentence(28, "0 LOADS, 1 TASTERS, 2 HEAT, 3 what is known, 4 told tastings, 5 bytes of THE TEXT. BAD");
+        sentence(28, "0 LOADS, 1 TASTERS, 2 HEAT, 3 what is known, 4 told tastings, 5 bytes of THE TEXT. BAD");
         for (int what : new int[] {-1, 6, 7, FAR, LOW}) {
             same("count(" + what + ")", -1, Worlds::busy, x -> x.count(what));
             due("count(" + what + ") of a new one", new ThirstScales().count(what), -1);
@@ -286,7 +273,7 @@ public final class KindEdgesTest {
     }
 
     private static void counts() {
-        CHECKS.sentence(28, "0 LOADS, 1 TASTERS, 2 HEAT, 3 what is known, 4 told tastings, 5 bytes of THE TEXT");
+        sentence(28, "0 LOADS, 1 TASTERS, 2 HEAT, 3 what is known, 4 told tastings, 5 bytes of THE TEXT");
         int[] most = {5, 6, 9, 12, 8, 200};
         for (int what = 0; what <= 5; what++) {
             int asked = what;
@@ -320,7 +307,7 @@ public final class KindEdgesTest {
     }
 
     private static void traceOfAllCalls() {
-        CHECKS.sentence(29, "(0 at first; of all calls ever, together)");
+        sentence(29, "(0 at first; of all calls ever, together)");
         ThirstScales x = Worlds.given();
         due("trace()", x.trace(), 0);
         long sum = 0;
@@ -340,7 +327,7 @@ public final class KindEdgesTest {
     }
 
     private static void traceStays() {
-        CHECKS.sentence(29, "THE TRACE stays");
+        sentence(29, "THE TRACE stays");
         ThirstScales x = Worlds.busy();
         due("trace()", x.trace(), 10101);
         x.mark(6, 0);

@@ -1,11 +1,6 @@
-import java.util.function.Supplier;
-import java.util.function.ToLongFunction;
-
 /** Laws (promises 19 to 24): a test for each sentence that names an edge. */
-public final class LawEdgesTest {
-    private static final int FAR = Integer.MAX_VALUE, LOW = Integer.MIN_VALUE;
+public final class LawEdgesTest extends Asking {
     private static final int[] OUTSIDE_TASTERS = {-1, 3, 4, 256, FAR, LOW};
-    private static final Checks CHECKS = new Checks();
 
     public static void main(String[] args) {
         toldBounds();
@@ -34,19 +29,6 @@ public final class LawEdgesTest {
         CHECKS.end();
     }
 
-    private static void due(String call, long got, long want) {
-        CHECKS.due(call, got, want);
-    }
-
-    private static void same(String call, long want, Supplier<ThirstScales> world, ToLongFunction<ThirstScales> ask) {
-        CHECKS.changesNothing(call, want, world, ask);
-    }
-
-    private static void bad(String call, ToLongFunction<ThirstScales> ask) {
-        same(call, -1, Worlds::busy, ask);
-        same(call + ", all full", -1, Worlds::full, ask);
-    }
-
     private static ThirstScales told(int... numbers) {
         ThirstScales x = new ThirstScales();
         for (int i = 0; i + 3 < numbers.length; i += 4) {
@@ -68,7 +50,7 @@ public final class LawEdgesTest {
     }
 
     private static void toldBounds() {
-        CHECKS.sentence(19, "(8 at most: a WEIGHT, LICKS 0 .. 9, HEAT 0 .. 9, CUPS 0 .. 999)");
+        sentence(19, "(8 at most: a WEIGHT, LICKS 0 .. 9, HEAT 0 .. 9, CUPS 0 .. 999)");
         due("the least", told().told(0, 0, 0, 0), 1);
         due("the greatest", told().told(60, 9, 9, 999), 1);
         due("the greatest alone", told().told(60, 0, 0, 0), 1);
@@ -88,7 +70,7 @@ public final class LawEdgesTest {
     }
 
     private static void toldEight() {
-        CHECKS.sentence(19, "(8 at most [..] A told tasting: how many. BAD; FULL");
+        sentence(19, "(8 at most [..] A told tasting: how many. BAD; FULL");
         ThirstScales x = new ThirstScales();
         for (int i = 1; i <= 8; i++) {
             due("tasting " + i, x.told(10, 0, 0, 4), i);
@@ -102,7 +84,7 @@ public final class LawEdgesTest {
         ThirstScales last = told(10, 0, 0, 4, 10, 0, 0, 4, 10, 0, 0, 4, 10, 0, 0, 4, 10, 0, 0, 4, 10, 0, 0, 4,
             10, 0, 0, 4, 60, 0, 0, 20);
         due("the eighth counts", last.learnt(0), 24);
-        CHECKS.sentence(19, "the first of these: BAD [..], STATE (as told), FULL");
+        sentence(19, "the first of these: BAD [..], STATE (as told), FULL");
         same("told(61, 0, 0, 0)", -1, Worlds::full, y -> y.told(61, 0, 0, 0));
         same("told(0, 10, 0, 0)", -1, Worlds::full, y -> y.told(0, 10, 0, 0));
         same("told(0, 0, 10, 0)", -1, Worlds::full, y -> y.told(0, 0, 10, 0));
@@ -110,7 +92,7 @@ public final class LawEdgesTest {
     }
 
     private static void toldChangesNothingElse() {
-        CHECKS.sentence(19, "of one unknown TASTER");
+        sentence(19, "of one unknown TASTER");
         ThirstScales x = Worlds.most();
         x.told(60, 9, 9, 999);
         due("count(3)", x.count(3), 0);
@@ -124,7 +106,7 @@ public final class LawEdgesTest {
     }
 
     private static void forgetting() {
-        CHECKS.sentence(20, "No told tastings: how many there were");
+        sentence(20, "No told tastings: how many there were");
         due("forget() of none", new ThirstScales().forget(), 0);
         ThirstScales x = Worlds.full();
         due("forget()", x.forget(), 8);
@@ -142,7 +124,7 @@ public final class LawEdgesTest {
     }
 
     private static void learntBounds() {
-        CHECKS.sentence(21, "how many LAWS (what = 0), the first: A, B, D, T (1 .. 4; NONE). BAD");
+        sentence(21, "how many LAWS (what = 0), the first: A, B, D, T (1 .. 4; NONE). BAD");
         for (int what : new int[] {-1, 5, 6, FAR, LOW}) {
             bad("learnt(" + what + ")", x -> x.learnt(what));
             due("BAD ahead of NONE", told(0, 0, 0, 999).learnt(what), -1);
@@ -155,7 +137,7 @@ public final class LawEdgesTest {
     }
 
     private static void learntOfNone() {
-        CHECKS.sentence(21, "how many LAWS (A, B, D, T) are as told");
+        sentence(21, "how many LAWS (A, B, D, T) are as told");
         learnt("nothing told", told(), 3240, 1, 0, 1, 0);
         learnt("nobody there", Worlds.read("load 1;"), 3240, 1, 0, 1, 0);
         learnt("told twice", told(10, 0, 0, 4, 10, 0, 0, 4), 168, 1, 2, 3, 0);
@@ -164,14 +146,14 @@ public final class LawEdgesTest {
     }
 
     private static void learntTheFirst() {
-        CHECKS.sentence(21, "the first by A, B, D, T");
+        sentence(21, "the first by A, B, D, T");
         learnt("A ahead of B: not 9 0 3 1", told(32, 5, 0, 94), 12, 3, 3, 1, 1);
         learnt("B ahead of D: not 1 3 3 3", told(54, 6, 9, 16), 25, 1, 1, 4, 0);
         learnt("D ahead of T: not 1 0 6 1", told(45, 5, 9, 8), 28, 1, 0, 5, 2);
     }
 
     private static void learntNoLaw() {
-        CHECKS.sentence(21, "(1 .. 4; NONE)");
+        sentence(21, "(1 .. 4; NONE)");
         learnt("more than any law", told(60, 0, 9, 559), 0, -9, -9, -9, -9);
         learnt("more than any law", told(60, 9, 9, 999), 0, -9, -9, -9, -9);
         learnt("two that speak against one another", told(10, 0, 0, 4, 10, 0, 0, 5), 0, -9, -9, -9, -9);
@@ -181,7 +163,7 @@ public final class LawEdgesTest {
     }
 
     private static void learntEndsOfLaws() {
-        CHECKS.sentence(21, "A (1 .. 9), B (0 .. 9), D (1 .. 9), T (0 .. 3)");
+        sentence(21, "A (1 .. 9), B (0 .. 9), D (1 .. 9), T (0 .. 3)");
         learnt("the last law of all", told(60, 0, 9, 558, 60, 1, 9, 555), 1, 9, 9, 1, 3);
         learnt("the first law of all", told(60, 0, 9, 69, 0, 0, 0, 0, 60, 9, 0, 60), 1, 1, 0, 1, 0);
         learnt("the greatest D", told(60, 0, 0, 6, 53, 0, 0, 5, 54, 0, 0, 6, 60, 9, 0, 6, 60, 0, 3, 7), 1,
@@ -191,7 +173,7 @@ public final class LawEdgesTest {
     }
 
     private static void mayBounds() {
-        CHECKS.sentence(22, "the least (what = 0), the greatest (1); NONE. BAD (as told())");
+        sentence(22, "the least (what = 0), the greatest (1); NONE. BAD (as told())");
         for (int weight : new int[] {-1, 61, 99, FAR, LOW}) {
             bad("may(" + weight + ", 0, 0, 0)", x -> x.may(weight, 0, 0, 0));
         }
@@ -207,7 +189,7 @@ public final class LawEdgesTest {
     }
 
     private static void mayOfAll() {
-        CHECKS.sentence(22, "CUPS he may drink of a WEIGHT with LICKS and HEAT: the least, the greatest");
+        sentence(22, "CUPS he may drink of a WEIGHT with LICKS and HEAT: the least, the greatest");
         may("nothing told", told(), 0, 0, 0, 0, 9);
         may("nothing told", told(), 0, 9, 9, 1, 18);
         may("nothing told", told(), 60, 0, 0, 6, 549);
@@ -217,25 +199,26 @@ public final class LawEdgesTest {
     }
 
     private static void mayOfSome() {
-        CHECKS.sentence(22, "CUPS he may drink of a WEIGHT with LICKS and HEAT: the least, the greatest");
+        sentence(22, "CUPS he may drink of a WEIGHT with LICKS and HEAT: the least, the greatest");
         may("as told", told(10, 0, 0, 4), 10, 0, 0, 4, 4);
         may("by two", told(10, 0, 0, 4, 60, 0, 0, 20), 30, 0, 0, 10, 10);
         may("by three", told(10, 0, 0, 4, 60, 0, 0, 20, 60, 9, 0, 17), 30, 5, 5, 9, 10);
         may("by one law, no cups", told(60, 0, 9, 69, 0, 0, 0, 0, 60, 1, 0, 59), 9, 9, 0, 0, 0);
+        may("by the first law alone", told(60, 0, 9, 69, 0, 0, 0, 0, 60, 9, 0, 60), 60, 9, 9, 69, 69);
         may("by one law, all he can", told(60, 0, 9, 558, 60, 1, 9, 555), 60, 9, 9, 531, 531);
     }
 
     private static void mayOfNoLaw() {
-        CHECKS.sentence(22, "NONE");
+        sentence(22, "NONE");
         may("no law", told(60, 0, 9, 559), 60, 0, 9, -9, -9);
         may("no law", told(10, 0, 0, 4, 10, 0, 0, 5), 0, 0, 0, -9, -9);
-        CHECKS.sentence(22, "BAD (as told())");
+        sentence(22, "BAD (as told())");
         due("BAD ahead of NONE", told(60, 0, 9, 559).may(61, 0, 0, 1), -1);
         due("BAD ahead of NONE", told(60, 0, 9, 559).may(0, 0, 0, 2), -1);
     }
 
     private static void bribedNobody() {
-        CHECKS.sentence(23, "something that is known as SAID is not CUPS by their LAWS of the true WEIGHT");
+        sentence(23, "something that is known as SAID is not CUPS by their LAWS of the true WEIGHT");
         due("nothing is known", new ThirstScales().bribed(), 0);
         ThirstScales x = Worlds.given();
         x.weighs(2, 1);
@@ -250,7 +233,7 @@ public final class LawEdgesTest {
     }
 
     private static void bribedBits() {
-        CHECKS.sentence(23, "TASTERS (bits)");
+        sentence(23, "TASTERS (bits)");
         for (int t = 0; t <= 5; t++) {
             ThirstScales x = Worlds.most();
             x.says(t, 1, 98);
@@ -268,7 +251,7 @@ public final class LawEdgesTest {
     }
 
     private static void bribedOnceIsEnough() {
-        CHECKS.sentence(23, "something that is known as SAID");
+        sentence(23, "something that is known as SAID");
         ThirstScales x = Worlds.given();
         x.says(0, 0, 4);
         x.says(0, 0, 3);
@@ -278,7 +261,7 @@ public final class LawEdgesTest {
         due("one too few", only(2).bribed(), 1);
         due("the truth", only(3).bribed(), 0);
         due("one too many", only(4).bribed(), 1);
-        CHECKS.sentence(23, "CUPS by their LAWS of the true WEIGHT");
+        sentence(23, "CUPS by their LAWS of the true WEIGHT");
         ThirstScales y = Worlds.given();
         y.says(2, 1, 99);
         due("whose truth is above 99", y.bribed(), 4);
@@ -295,7 +278,7 @@ public final class LawEdgesTest {
     }
 
     private static void bribedAsTheyWere() {
-        CHECKS.sentence(23, "(with LICKS, HEAT as they were)");
+        sentence(23, "(with LICKS, HEAT as they were)");
         ThirstScales x = Worlds.given();
         x.says(1, 0, 7);
         Worlds.jugged(x, 1, 0, 3);
@@ -315,7 +298,7 @@ public final class LawEdgesTest {
     }
 
     private static void bribedUndone() {
-        CHECKS.sentence(23, "that is known");
+        sentence(23, "that is known");
         ThirstScales x = Worlds.given();
         x.says(2, 0, 9);
         x.says(0, 0, 9);
@@ -335,7 +318,7 @@ public final class LawEdgesTest {
     }
 
     private static void memoryBounds() {
-        CHECKS.sentence(24, "y (0 .. 20) [..] MEMORY (cups 0 .. 999) [..] BAD");
+        sentence(24, "y (0 .. 20) [..] MEMORY (cups 0 .. 999) [..] BAD");
         for (int t : OUTSIDE_TASTERS) {
             bad("memory(" + t + ", 5, 0, 0)", x -> x.memory(t, 5, 0, 0));
         }
@@ -354,7 +337,7 @@ public final class LawEdgesTest {
     }
 
     private static void memoryNear() {
-        CHECKS.sentence(24, "y more or less by now: WEIGHTS by which CUPS may be so near");
+        sentence(24, "y more or less by now: WEIGHTS by which CUPS may be so near");
         ThirstScales x = Worlds.read("taster 1 0 1 0;taster 1 0 9 0;taster 9 0 1 0;");
         memory("just so", x, 0, 30, 0, 30, 30);
         memory("one year", x, 0, 30, 1, 29, 31);
@@ -370,7 +353,7 @@ public final class LawEdgesTest {
     }
 
     private static void memoryAtTheEnds() {
-        CHECKS.sentence(24, "WEIGHTS by which CUPS may be so near: the least, the greatest");
+        sentence(24, "WEIGHTS by which CUPS may be so near: the least, the greatest");
         ThirstScales x = Worlds.read("taster 1 0 1 0;taster 1 0 9 0;");
         memory("no cups", x, 0, 0, 0, 0, 0);
         memory("no cups", x, 0, 0, 20, 0, 20);
@@ -383,20 +366,20 @@ public final class LawEdgesTest {
     }
 
     private static void memoryOfNone() {
-        CHECKS.sentence(24, "NONE");
+        sentence(24, "NONE");
         ThirstScales x = Worlds.read("taster 1 0 1 0;taster 1 5 1 0;");
         memory("one too far above", x, 0, 81, 20, -9, -9);
         memory("far above", x, 0, 999, 20, -9, -9);
         memory("above", x, 0, 61, 0, -9, -9);
         memory("below", x, 1, 4, 0, -9, -9);
         memory("below, by a year", x, 1, 4, 1, 0, 0);
-        CHECKS.sentence(24, "BAD");
+        sentence(24, "BAD");
         due("BAD ahead of NONE", x.memory(0, 999, 0, 2), -1);
         due("BAD ahead of NONE", x.memory(0, 999, 21, 0), -1);
     }
 
     private static void memoryNoLicksThisHeat() {
-        CHECKS.sentence(24, "(no LICKS, this HEAT)");
+        sentence(24, "(no LICKS, this HEAT)");
         ThirstScales x = Worlds.jugged(Worlds.read("load 1;taster 1 0 1 3;taster 1 0 1 0;"), 0, 1, 5);
         memory("he is tired now", x, 0, 30, 0, 30, 30);
         x.heat(9);

@@ -1,10 +1,6 @@
-import java.util.function.Supplier;
-import java.util.function.ToLongFunction;
-
 /** What loads can be (promises 15 to 18): a test for each sentence that names an edge. */
-public final class LoadEdgesTest {
-    private static final int[] OUTSIDE_LOADS = {-1, 3, 4, 5, 256, Integer.MAX_VALUE, Integer.MIN_VALUE};
-    private static final Checks CHECKS = new Checks();
+public final class LoadEdgesTest extends Asking {
+    private static final int[] OUTSIDE_LOADS = {-1, 3, 4, 5, 256, FAR, LOW};
 
     public static void main(String[] args) {
         canBeBounds();
@@ -35,19 +31,6 @@ public final class LoadEdgesTest {
         CHECKS.end();
     }
 
-    private static void due(String call, long got, long want) {
-        CHECKS.due(call, got, want);
-    }
-
-    private static void same(String call, long want, Supplier<ThirstScales> world, ToLongFunction<ThirstScales> ask) {
-        CHECKS.changesNothing(call, want, world, ask);
-    }
-
-    private static void bad(String call, ToLongFunction<ThirstScales> ask) {
-        same(call, -1, Worlds::busy, ask);
-        same(call + ", all full", -1, Worlds::full, ask);
-    }
-
     private static void canBe(String when, ThirstScales x, int l, int many, int least, int greatest) {
         due(when + ": canBe(" + l + ", 0)", x.canBe(l, 0), many);
         due(when + ": canBe(" + l + ", 1)", x.canBe(l, 1), least);
@@ -68,14 +51,14 @@ public final class LoadEdgesTest {
     }
 
     private static void canBeBounds() {
-        CHECKS.sentence(15, "how many (what = 0), the least (1), the greatest (2). BAD");
+        sentence(15, "how many (what = 0), the least (1), the greatest (2). BAD");
         for (int l : OUTSIDE_LOADS) {
             bad("canBe(" + l + ", 0)", x -> x.canBe(l, 0));
         }
-        for (int what : new int[] {-1, 3, 4, Integer.MAX_VALUE, Integer.MIN_VALUE}) {
+        for (int what : new int[] {-1, 3, 4, FAR, LOW}) {
             bad("canBe(0, " + what + ")", x -> x.canBe(0, what));
         }
-        CHECKS.sentence(15, "(Nothing is changed.)");
+        sentence(15, "(Nothing is changed.)");
         for (int what = 0; what <= 2; what++) {
             int asked = what;
             same("canBe(2, " + what + ")", new int[] {61, 0, 60}[what], Worlds::busy, x -> x.canBe(2, asked));
@@ -83,7 +66,7 @@ public final class LoadEdgesTest {
     }
 
     private static void canBeAll() {
-        CHECKS.sentence(15, "WEIGHTS 0 .. 60 by which all that is known of it as WEIGHED would be as it is");
+        sentence(15, "WEIGHTS 0 .. 60 by which all that is known of it as WEIGHED would be as it is");
         for (int l = 0; l <= 4; l++) {
             canBe("nothing is known", Worlds.most(), l, 61, 0, 60);
         }
@@ -93,7 +76,7 @@ public final class LoadEdgesTest {
     }
 
     private static void canBeOne() {
-        CHECKS.sentence(15, "how many; the least, the greatest");
+        sentence(15, "how many; the least, the greatest");
         for (int w = 0; w <= 60; w++) {
             canBe("weighed by itself", weighed("load " + w + ";taster 1 0 1 0;", 0, 0), 0, 1, w, w);
         }
@@ -102,7 +85,7 @@ public final class LoadEdgesTest {
     }
 
     private static void canBeAtTheEnds() {
-        CHECKS.sentence(15, "WEIGHTS 0 .. 60");
+        sentence(15, "WEIGHTS 0 .. 60");
         canBe("0 of 9", weighed("load 0;taster 1 0 9 0;", 0, 0), 0, 9, 0, 8);
         canBe("8 of 9", weighed("load 8;taster 1 0 9 0;", 0, 0), 0, 9, 0, 8);
         canBe("9 of 9", weighed("load 9;taster 1 0 9 0;", 0, 0), 0, 9, 9, 17);
@@ -114,7 +97,7 @@ public final class LoadEdgesTest {
     }
 
     private static void canBeTired() {
-        CHECKS.sentence(15, "(A times WEIGHT) less (T times LICKS), 0 at least");
+        sentence(15, "(A times WEIGHT) less (T times LICKS), 0 at least");
         String text = "load 0;load 60;taster 1 0 9 3;taster 1 0 1 0;";
         ThirstScales x = Worlds.jugged(Worlds.read(text), 0, 1, 2);
         x.weighs(0, 0);
@@ -128,7 +111,7 @@ public final class LoadEdgesTest {
     }
 
     private static void canBeIsNotSaid() {
-        CHECKS.sentence(15, "(what is known as SAID does not matter)");
+        sentence(15, "(what is known as SAID does not matter)");
         ThirstScales x = Worlds.given();
         x.says(2, 0, 99);
         x.says(1, 0, 7);
@@ -144,7 +127,7 @@ public final class LoadEdgesTest {
     }
 
     private static void canBeAsItWas() {
-        CHECKS.sentence(15, "all that is known of it as WEIGHED would be as it is");
+        sentence(15, "all that is known of it as WEIGHED would be as it is");
         ThirstScales x = weighed(Worlds.TEXT, 1, 1, 1, 1, 1, 1, 1, 0);
         canBe("with three licks", x, 0, 3, 18, 20);
         x.heat(9);
@@ -160,7 +143,7 @@ public final class LoadEdgesTest {
     }
 
     private static void canBeUndone() {
-        CHECKS.sentence(15, "it is known no more");
+        sentence(15, "it is known no more");
         ThirstScales x = weighed(Worlds.TEXT, 0, 0, 1, 0);
         x.undo();
         canBe("one undone", x, 0, 7, 17, 23);
@@ -169,20 +152,20 @@ public final class LoadEdgesTest {
     }
 
     private static void nextBounds() {
-        CHECKS.sentence(16, "the TASTER (what = 0), how many are left at worst (1); NONE. BAD");
+        sentence(16, "the TASTER (what = 0), how many are left at worst (1); NONE. BAD");
         for (int l : OUTSIDE_LOADS) {
             bad("next(" + l + ", 0)", x -> x.next(l, 0));
         }
-        for (int what : new int[] {-1, 2, 3, Integer.MAX_VALUE, Integer.MIN_VALUE}) {
+        for (int what : new int[] {-1, 2, 3, FAR, LOW}) {
             bad("next(0, " + what + ")", x -> x.next(0, what));
         }
-        CHECKS.sentence(16, "(Nothing is changed.)");
+        sentence(16, "(Nothing is changed.)");
         same("next(1, 0)", 2, Worlds::busy, x -> x.next(1, 0));
         same("next(1, 1)", 1, Worlds::busy, x -> x.next(1, 1));
     }
 
     private static void nextOfSeveral() {
-        CHECKS.sentence(16, "of several the first");
+        sentence(16, "of several the first");
         next("two of three", Worlds.read("load 0;taster 1 0 9 0;taster 1 0 4 3;taster 1 0 4 0;"), 0, 1, 4);
         next("all six", Worlds.read("load 0;" + "taster 1 0 4 0;".repeat(6)), 0, 0, 4);
         next("the last", Worlds.read("load 0;" + "taster 1 0 4 0;".repeat(5) + "taster 1 0 3 0;"), 0, 5, 3);
@@ -191,7 +174,7 @@ public final class LoadEdgesTest {
     }
 
     private static void nextByLicksAndHeat() {
-        CHECKS.sentence(16, "(with his LICKS, this HEAT)");
+        sentence(16, "(with his LICKS, this HEAT)");
         String text = "load 0;taster 1 0 9 0;taster 1 0 4 3;taster 1 0 4 0;";
         next("one lick: 0 to 6 are alike", Worlds.jugged(Worlds.read(text), 0, 1, 1), 0, 2, 4);
         text = "load 0;taster 1 0 9 0;taster 1 0 4 3;";
@@ -199,8 +182,8 @@ public final class LoadEdgesTest {
         ThirstScales rested = Worlds.jugged(Worlds.read(text), 0, 1, 2);
         rested.night();
         next("rested", rested, 0, 1, 4);
-        next("so tired that all are alike", Worlds.jugged(Worlds.read("load 0;taster 1 0 1 3;taster 1 0 9 0;"), 0, 1, 20),
-            0, 1, 9);
+        text = "load 0;taster 1 0 1 3;taster 1 0 9 0;";
+        next("so tired that all are alike", Worlds.jugged(Worlds.read(text), 0, 1, 20), 0, 1, 9);
         text = "load 0;taster 1 0 9 0;taster 1 1 8 0;";
         next("0 to 8, without heat", weighed(text, 0, 0), 0, 1, 7);
         ThirstScales hot = weighed(text, 0, 0);
@@ -209,7 +192,7 @@ public final class LoadEdgesTest {
     }
 
     private static void nextOfThoseLeft() {
-        CHECKS.sentence(16, "the most WEIGHTS that are left of those that CAN BE");
+        sentence(16, "the most WEIGHTS that are left of those that CAN BE");
         String text = "load 20;taster 1 2 7 0;taster 1 0 6 0;taster 1 1 8 0;heat 2;";
         next("all", Worlds.read(text), 0, 1, 6);
         next("17 to 23", weighed(text, 0, 0), 0, 2, 4);
@@ -217,7 +200,7 @@ public final class LoadEdgesTest {
     }
 
     private static void nextAtWorst() {
-        CHECKS.sentence(16, "the most WEIGHTS that are left [..] at worst are the fewest");
+        sentence(16, "the most WEIGHTS that are left [..] at worst are the fewest");
         next("the first of them fewer", Worlds.read("load 0;taster 1 8 9 0;"), 0, 0, 9);
         next("the last of them fewer", Worlds.read("load 0;taster 1 0 9 0;"), 0, 0, 9);
         next("the first of them most", Worlds.jugged(Worlds.read("load 0;taster 9 0 1 3;taster 1 0 9 0;"), 0, 1, 9),
@@ -228,39 +211,40 @@ public final class LoadEdgesTest {
     }
 
     private static void nextOfNobody() {
-        CHECKS.sentence(16, "NONE: no TASTERS");
+        sentence(16, "NONE: no TASTERS");
         same("next(0, 0)", -9, () -> Worlds.read("load 5;"), x -> x.next(0, 0));
         same("next(0, 1)", -9, () -> Worlds.read("load 5;"), x -> x.next(0, 1));
-        CHECKS.sentence(16, "BAD");
+        sentence(16, "BAD");
         due("BAD ahead of NONE", Worlds.read("load 5;").next(0, 2), -1);
         due("BAD ahead of NONE", Worlds.read("load 5;").next(1, 0), -1);
         due("BAD ahead of NONE", new ThirstScales().next(0, 0), -1);
     }
 
     private static void nextWhenFull() {
-        CHECKS.sentence(16, "(Nothing is changed.)");
+        sentence(16, "(Nothing is changed.)");
         same("next(2, 0), twelve known", 2, Worlds::full, x -> x.next(2, 0));
         same("next(2, 1), twelve known", 1, Worlds::full, x -> x.next(2, 1));
         same("next(0, 0), twelve known", 0, Worlds::full, x -> x.next(0, 0));
     }
 
     private static void enoughBounds() {
-        CHECKS.sentence(17, "m (1 .. 61) [..] BAD");
-        for (int m : new int[] {-1, 0, 62, 63, 256, Integer.MAX_VALUE, Integer.MIN_VALUE}) {
+        sentence(17, "m (1 .. 61) [..] BAD");
+        for (int m : new int[] {-1, 0, 62, 63, 256, FAR, LOW}) {
             bad("enough(0, " + m + ")", x -> x.enough(0, m));
         }
         for (int l : OUTSIDE_LOADS) {
             bad("enough(" + l + ", 1)", x -> x.enough(l, 1));
         }
-        CHECKS.sentence(17, "(Nothing is changed.)");
+        sentence(17, "(Nothing is changed.)");
         same("enough(1, 1)", 1, Worlds::busy, x -> x.enough(1, 1));
         same("enough(1, 61)", 0, Worlds::busy, x -> x.enough(1, 61));
-        same("enough(0, 1) of three", 3, () -> weighed("load 20;taster 2 1 7 1;heat 2;", 0, 0, 0, 0), x -> x.enough(0, 1));
-        same("enough(0, 1) of none", -9, () -> Worlds.read("load 20;taster 2 1 7 1;heat 2;"), x -> x.enough(0, 1));
+        String text = "load 20;taster 2 1 7 1;heat 2;";
+        same("enough(0, 1) of three", 3, () -> weighed(text, 0, 0, 0, 0), x -> x.enough(0, 1));
+        same("enough(0, 1) of none", -9, () -> Worlds.read(text), x -> x.enough(0, 1));
     }
 
     private static void enoughAlready() {
-        CHECKS.sentence(17, "m WEIGHTS at most are left");
+        sentence(17, "m WEIGHTS at most are left");
         String text = "load 20;taster 1 0 1 0;taster 1 0 9 0;";
         due("61 of 61", Worlds.read(text).enough(0, 61), 0);
         due("61 of 60", Worlds.read(text).enough(0, 60), 1);
@@ -272,7 +256,7 @@ public final class LoadEdgesTest {
     }
 
     private static void enoughOfThree() {
-        CHECKS.sentence(17, "the fewest weighings (0 .. 3) [..]; NONE");
+        sentence(17, "the fewest weighings (0 .. 3) [..]; NONE");
         String text = "load 20;taster 1 1 4 1;heat 5;";
         int[][] due = {{1, -9}, {2, 3}, {3, 2}, {4, 1}, {5, 1}, {60, 1}, {61, 0}};
         for (int[] row : due) {
@@ -290,16 +274,21 @@ public final class LoadEdgesTest {
     }
 
     private static void enoughByLicks() {
-        CHECKS.sentence(17, "(LICKS grow by them)");
+        sentence(17, "(LICKS grow by them)");
         due("by growing licks alone", Worlds.read("load 20;taster 3 2 4 1;taster 2 1 6 0;").enough(0, 1), 2);
         due("rested ones would never do", Worlds.read("load 20;taster 3 2 4 0;taster 2 1 6 0;").enough(0, 1), -9);
         String text = "load 20;taster 1 0 4 1;taster 1 0 2 0;";
         due("by the second lick", weighed(text, 1, 0).enough(0, 1), 2);
         due("which is his next", Worlds.jugged(weighed(text, 1, 0), 0, 1, 1).enough(0, 1), 1);
         due("by the third lick", weighed("load 21;taster 1 0 4 1;taster 1 0 2 0;", 1, 0).enough(0, 1), 2);
-        due("so tired that nothing helps", Worlds.jugged(Worlds.read("load 0;taster 1 0 1 3;taster 1 0 9 3;"), 0, 1, 20)
-            .enough(0, 60), -9);
-        CHECKS.sentence(17, "(with his LICKS, this HEAT)");
+        text = "load 0;taster 1 0 1 3;taster 1 0 9 3;";
+        due("so tired that nothing helps", Worlds.jugged(Worlds.read(text), 0, 1, 20).enough(0, 60), -9);
+        due("not another one's", Worlds.read("load 20;taster 1 2 3 3;taster 3 0 4 1;").enough(0, 1), 2);
+        due("not another one's", Worlds.read("load 20;taster 2 2 8 1;taster 1 2 4 0;").enough(0, 2), 3);
+        due("one more each time", Worlds.read("load 20;taster 1 1 7 1;taster 1 2 5 1;").enough(0, 3), 3);
+        due("of the last of six", Worlds.read("load 20;" + "taster 1 0 9 0;".repeat(5) + "taster 1 1 4 1;heat 5;")
+            .enough(0, 3), 2);
+        sentence(17, "(with his LICKS, this HEAT)");
         ThirstScales hot = weighed("load 20;taster 1 0 2 0;taster 1 0 4 0;", 0, 0);
         due("20 or 21, without heat", hot.enough(0, 1), -9);
         hot.heat(3);
@@ -307,35 +296,35 @@ public final class LoadEdgesTest {
     }
 
     private static void enoughChosen() {
-        CHECKS.sentence(17, "each chosen by what was drunk ahead");
+        sentence(17, "each chosen by what was drunk ahead");
         due("three if told ahead", Worlds.read("load 20;taster 3 1 7 2;taster 1 1 2 3;heat 8;").enough(0, 1), 2);
-        CHECKS.sentence(17, "the fewest weighings");
+        sentence(17, "the fewest weighings");
         due("not by the nearest first", Worlds.read("load 20;taster 2 2 6 0;taster 3 1 8 1;").enough(0, 2), 3);
-        CHECKS.sentence(17, "whatever is drunk");
+        sentence(17, "whatever is drunk");
         due("the true weight does not matter", Worlds.read("load 60;taster 1 0 9 0;").enough(0, 6), -9);
         due("nor at the other end", Worlds.read("load 0;taster 1 8 9 0;").enough(0, 6), -9);
     }
 
     private static void enoughOfNobody() {
-        CHECKS.sentence(17, "NONE");
+        sentence(17, "NONE");
         for (int m : new int[] {1, 2, 30, 60}) {
             same("enough(0, " + m + ") of nobody", -9, () -> Worlds.read("load 5;"), x -> x.enough(0, m));
         }
         same("enough(0, 61) of nobody", 0, () -> Worlds.read("load 5;"), x -> x.enough(0, 61));
-        CHECKS.sentence(17, "BAD");
+        sentence(17, "BAD");
         due("BAD ahead of NONE", Worlds.read("load 5;").enough(0, 0), -1);
         due("BAD ahead of NONE", Worlds.read("load 5;").enough(1, 1), -1);
     }
 
     private static void enoughWhenFull() {
-        CHECKS.sentence(17, "(Nothing is changed.)");
+        sentence(17, "(Nothing is changed.)");
         same("enough(2, 61), twelve known", 0, Worlds::full, x -> x.enough(2, 61));
         same("enough(2, 1), twelve known", 1, Worlds::full, x -> x.enough(2, 1));
         same("enough(0, 1), twelve known", 0, Worlds::full, x -> x.enough(0, 1));
     }
 
     private static void heavierBounds() {
-        CHECKS.sentence(18, "BAD (one and the same, too)");
+        sentence(18, "BAD (one and the same, too)");
         for (int l : OUTSIDE_LOADS) {
             bad("heavier(" + l + ", 0)", x -> x.heavier(l, 0));
             bad("heavier(0, " + l + ")", x -> x.heavier(0, l));
@@ -345,14 +334,14 @@ public final class LoadEdgesTest {
             int one = l;
             bad("heavier(" + l + ", " + l + ")", x -> x.heavier(one, one));
         }
-        CHECKS.sentence(18, "(Nothing is changed.)");
+        sentence(18, "(Nothing is changed.)");
         same("heavier(1, 0)", 1, Worlds::busy, x -> x.heavier(1, 0));
         same("heavier(0, 1)", -2, Worlds::busy, x -> x.heavier(0, 1));
         same("heavier(0, 2)", 0, Worlds::busy, x -> x.heavier(0, 2));
     }
 
     private static void heavierByOne() {
-        CHECKS.sentence(18, "all WEIGHTS that a LOAD CAN BE are above all that another one CAN BE: 1; all below: -2");
+        sentence(18, "all WEIGHTS that a LOAD CAN BE are above all that another one CAN BE: 1; all below: -2");
         // load 0 is weighed as 18 to 26, the other one by itself
         int[][] due = {{16, -2}, {17, -2}, {18, 0}, {19, 0}, {25, 0}, {26, 0}, {27, 1}, {28, 1}};
         for (int[] row : due) {
@@ -363,7 +352,7 @@ public final class LoadEdgesTest {
     }
 
     private static void heavierOfAll() {
-        CHECKS.sentence(18, "else 0");
+        sentence(18, "else 0");
         ThirstScales x = Worlds.read("load 60;load 0;taster 1 0 1 0;taster 1 0 9 0;");
         due("nothing is known", x.heavier(0, 1), 0);
         x.weighs(0, 0);
@@ -379,6 +368,7 @@ public final class LoadEdgesTest {
         due("as heavy, by spans", weighed("load 20;load 26;taster 1 0 9 0;", 0, 0, 0, 1).heavier(1, 0), 0);
         due("by spans that touch", weighed("load 26;load 27;taster 1 0 9 0;", 0, 0, 0, 1).heavier(1, 0), 1);
         due("by spans that touch", weighed("load 26;load 27;taster 1 0 9 0;", 0, 0, 0, 1).heavier(0, 1), -2);
-        due("the last two", weighed("load 1;load 1;load 1;load 2;load 1;taster 1 0 1 0;", 0, 3, 0, 4).heavier(3, 4), 1);
+        ThirstScales five = weighed("load 1;load 1;load 1;load 2;load 1;taster 1 0 1 0;", 0, 3, 0, 4);
+        due("the last two", five.heavier(3, 4), 1);
     }
 }

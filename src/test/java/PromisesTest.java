@@ -1,10 +1,5 @@
-import java.util.function.ToLongFunction;
-
 /** Promise by promise: ordinary numbers, the edges that the document names, and wrong ones. */
-public final class PromisesTest {
-    private static final int FAR = Integer.MAX_VALUE, LOW = Integer.MIN_VALUE;
-    private static final Checks CHECKS = new Checks();
-
+public final class PromisesTest extends Asking {
     public static void main(String[] args) {
         newObject();
         typing();
@@ -37,24 +32,6 @@ public final class PromisesTest {
         counts();
         traces();
         CHECKS.end();
-    }
-
-    private static void promise(int number) {
-        CHECKS.about("promise " + number);
-    }
-
-    private static void due(String call, long got, long want) {
-        CHECKS.due(call, got, want);
-    }
-
-    /** Refused by an object that holds some of everything. */
-    private static void refused(String call, long code, ToLongFunction<ThirstScales> ask) {
-        CHECKS.changesNothing(call, code, Worlds::busy, ask);
-    }
-
-    /** Refused by an object that has no room left for anything. */
-    private static void refusedFull(String call, long code, ToLongFunction<ThirstScales> ask) {
-        CHECKS.changesNothing(call, code, Worlds::full, ask);
     }
 
     private static void newObject() {
@@ -157,7 +134,7 @@ public final class PromisesTest {
         due("too early behind a number", Worlds.gateOf("load 1"), -16);
         due("too early behind blanks", Worlds.gateOf("taster 1 2  "), -22);
         due("the first fault of two", Worlds.gateOf("load 61; ?"), -15);
-        CHECKS.changesNothing("gate() with a fault behind right items", -10 - 21, () -> {
+        same("gate() with a fault behind right items", -10 - 21, () -> {
             ThirstScales x = Worlds.busy();
             x.clear();
             Worlds.type(x, "load 9;heat 1;load 9 ?");
@@ -349,7 +326,7 @@ public final class PromisesTest {
         due("a weighing of the day ahead", x.undo(), 1);
         due("0 at least", x.taster(1, 4), 0);
         due("the last", x.undo(), 0);
-        CHECKS.changesNothing("undo()", -2, () -> Worlds.read(Worlds.TEXT), y -> y.undo());
+        same("undo()", -2, () -> Worlds.read(Worlds.TEXT), y -> y.undo());
         ThirstScales filled = Worlds.full();
         due("undo()", filled.undo(), 11);
         due("room again", filled.says(0, 0, 5), 12);

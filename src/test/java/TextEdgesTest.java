@@ -1,7 +1,6 @@
 /** The text and its gate (promises 1 to 6): a test for each sentence that names an edge. */
-public final class TextEdgesTest {
+public final class TextEdgesTest extends Asking {
     private static final String LOAD = "load 1;", TASTER = "taster 1 0 1 0;";
-    private static final Checks CHECKS = new Checks();
 
     public static void main(String[] args) {
         newObject();
@@ -36,17 +35,13 @@ public final class TextEdgesTest {
         CHECKS.end();
     }
 
-    private static void due(String call, long got, long want) {
-        CHECKS.due(call, got, want);
-    }
-
     private static String blanks(int n) {
         return " ".repeat(n);
     }
 
     /** The gate tells this fault, and all stays as it was. */
     private static void faultAt(String text, int place) {
-        CHECKS.changesNothing("gate() of '" + text + "'", -10 - place, () -> {
+        same("gate() of '" + text + "'", -10 - place, () -> {
             ThirstScales x = Worlds.busy();
             x.clear();
             Worlds.type(x, text);
@@ -59,7 +54,7 @@ public final class TextEdgesTest {
     }
 
     private static void newObject() {
-        CHECKS.sentence(1, "As told; no LOADS, nobody");
+        sentence(1, "As told; no LOADS, nobody");
         for (int what = 0; what <= 5; what++) {
             due("count(" + what + ")", new ThirstScales().count(what), 0);
         }
@@ -84,14 +79,14 @@ public final class TextEdgesTest {
         due("back(1)", new ThirstScales().back(1), -2);
         due("clear()", new ThirstScales().clear(), 0);
         due("gate()", new ThirstScales().gate(), 0);
-        CHECKS.sentence(1, "HEAT (0 .. 9; 0 at first)");
+        sentence(1, "HEAT (0 .. 9; 0 at first)");
         due("heat(5)", new ThirstScales().heat(5), 0);
-        CHECKS.sentence(1, "THE TRACE (0 at first;");
+        sentence(1, "THE TRACE (0 at first;");
         due("trace()", new ThirstScales().trace(), 0);
     }
 
     private static void twoHundredBytes() {
-        CHECKS.sentence(2, "a text (200 bytes at most)");
+        sentence(2, "a text (200 bytes at most)");
         ThirstScales x = new ThirstScales();
         for (int i = 1; i <= 25; i++) {
             due("type(.., 8)", x.type(Worlds.bytes("load 1; "), 8), 8 * i);
@@ -123,32 +118,32 @@ public final class TextEdgesTest {
     }
 
     private static void pieceThatDoesNotFit() {
-        CHECKS.sentence(2, "Refused, and nothing changes [..] FULL");
+        sentence(2, "Refused, and nothing changes [..] FULL");
         for (int n = 2; n <= 8; n++) {
             int room = n - 1;
             int bytes = n;
-            CHECKS.changesNothing("type(.., " + n + ") with room for one less", -3,
+            same("type(.., " + n + ") with room for one less", -3,
                 () -> Worlds.typed(blanks(200 - room)), x -> x.type(32, bytes));
             due("type(.., " + room + ") fits", Worlds.typed(blanks(200 - room)).type(32, room), 200);
         }
-        CHECKS.sentence(2, "the first of these: BAD [..], STATE (as told), FULL");
-        CHECKS.changesNothing("type(32, 0)", -1, Worlds::full, x -> x.type(32, 0));
-        CHECKS.changesNothing("type(32, 9)", -1, Worlds::full, x -> x.type(32, 9));
-        CHECKS.changesNothing("type(32, 2147483647)", -1, Worlds::full, x -> x.type(32, Integer.MAX_VALUE));
+        sentence(2, "the first of these: BAD [..], STATE (as told), FULL");
+        same("type(32, 0)", -1, Worlds::full, x -> x.type(32, 0));
+        same("type(32, 9)", -1, Worlds::full, x -> x.type(32, 9));
+        same("type(32, 2147483647)", -1, Worlds::full, x -> x.type(32, FAR));
     }
 
     private static void lengthOfAPiece() {
-        CHECKS.sentence(2, "n (1 .. 8)");
+        sentence(2, "n (1 .. 8)");
         for (int n = 1; n <= 8; n++) {
             due("type(32, " + n + ")", new ThirstScales().type(32, n), n);
         }
-        for (int n : new int[] {0, 9, -1, -8, 200, 256 + 1, Integer.MAX_VALUE, Integer.MIN_VALUE}) {
-            CHECKS.changesNothing("type(59, " + n + ")", -1, Worlds::busy, x -> x.type(59, n));
+        for (int n : new int[] {0, 9, -1, -8, 200, 256 + 1, FAR, LOW}) {
+            same("type(59, " + n + ")", -1, Worlds::busy, x -> x.type(59, n));
         }
     }
 
     private static void lowestBytes() {
-        CHECKS.sentence(2, "The lowest n (1 .. 8) bytes of v, the highest of them first");
+        sentence(2, "The lowest n (1 .. 8) bytes of v, the highest of them first");
         String text = "load 20;heat 3;taster 4 5 6 3;";
         for (int n = 1; n <= 8; n++) {
             ThirstScales x = new ThirstScales();
@@ -177,7 +172,7 @@ public final class TextEdgesTest {
     }
 
     private static void clearing() {
-        CHECKS.sentence(3, "THE TEXT is empty: how many bytes it had");
+        sentence(3, "THE TEXT is empty: how many bytes it had");
         due("clear() of none", new ThirstScales().clear(), 0);
         due("clear() of one", Worlds.typed("?").clear(), 1);
         due("clear() of 200", Worlds.typed(blanks(200)).clear(), 200);
@@ -191,7 +186,7 @@ public final class TextEdgesTest {
     }
 
     private static void blanks() {
-        CHECKS.sentence(4, "blanks (32) ahead of, between and behind TOKENS as may be");
+        sentence(4, "blanks (32) ahead of, between and behind TOKENS as may be");
         items("  load 5;", 1);
         items("load    5  ;", 1);
         items("load 5;   ", 1);
@@ -208,13 +203,13 @@ public final class TextEdgesTest {
     }
 
     private static void blanksAlone() {
-        CHECKS.sentence(4, "ITEMS (none, too)");
+        sentence(4, "ITEMS (none, too)");
         items(" ", 0);
         items(blanks(200), 0);
     }
 
     private static void blanksNotNeeded() {
-        CHECKS.sentence(4, "none needed where TOKENS end without");
+        sentence(4, "none needed where TOKENS end without");
         items("load5;load60;heat9;taster1 0 1 0;", 4);
         ThirstScales x = Worlds.read("load5;heat9;taster9 9 9 3;");
         due("load(0)", x.load(0), 5);
@@ -227,14 +222,14 @@ public final class TextEdgesTest {
     }
 
     private static void noItems() {
-        CHECKS.sentence(4, "ITEMS (none, too)");
+        sentence(4, "ITEMS (none, too)");
         items("", 0);
         ThirstScales x = Worlds.busy();
         x.clear();
         due("gate() of no text", x.gate(), 0);
         due("count(0)", x.count(0), 0);
         due("count(1)", x.count(1), 0);
-        CHECKS.sentence(4, "each ended by ;");
+        sentence(4, "each ended by ;");
         faultAt(";", 0);
         faultAt(";load 5;", 0);
         faultAt("load 5;;", 7);
@@ -243,7 +238,7 @@ public final class TextEdgesTest {
     }
 
     private static void mostItems() {
-        CHECKS.sentence(4, "(5 of them at most) [..] (6 at most) [..] (once at most)");
+        sentence(4, "(5 of them at most) [..] (6 at most) [..] (once at most)");
         items(LOAD.repeat(5), 5);
         items(TASTER.repeat(6), 6);
         items("heat 0;", 1);
@@ -255,15 +250,15 @@ public final class TextEdgesTest {
     }
 
     private static void numbersWithinBounds() {
-        CHECKS.sentence(4, "a WEIGHT (0 .. 60)");
+        sentence(4, "a WEIGHT (0 .. 60)");
         for (int w = 0; w <= 60; w++) {
             due("load(0) of load " + w, Worlds.read("load " + w + ";").load(0), w);
         }
-        CHECKS.sentence(4, "HEAT (0 .. 9; 0 at first)");
+        sentence(4, "HEAT (0 .. 9; 0 at first)");
         for (int h = 0; h <= 9; h++) {
             due("count(2) of heat " + h, Worlds.read("heat " + h + ";").count(2), h);
         }
-        CHECKS.sentence(4, "A (1 .. 9), B (0 .. 9), D (1 .. 9), T (0 .. 3)");
+        sentence(4, "A (1 .. 9), B (0 .. 9), D (1 .. 9), T (0 .. 3)");
         int[] least = {1, 0, 1, 0};
         int[] most = {9, 9, 9, 3};
         for (int what = 0; what <= 3; what++) {
@@ -279,7 +274,7 @@ public final class TextEdgesTest {
     }
 
     private static void numbersBeyondBounds() {
-        CHECKS.sentence(4, "a NUMBER beyond what it may be, too");
+        sentence(4, "a NUMBER beyond what it may be, too");
         faultAt("load 61;", 5);
         faultAt("load 99;", 5);
         faultAt("heat 10;", 5);
@@ -297,7 +292,7 @@ public final class TextEdgesTest {
     }
 
     private static void numbersThatAreNone() {
-        CHECKS.sentence(4, "a NUMBER above 99 or with a 0 ahead of others, that TOKEN's");
+        sentence(4, "a NUMBER above 99 or with a 0 ahead of others, that TOKEN's");
         for (String number : new String[] {"00", "01", "05", "09", "000", "007", "060", "0".repeat(150),
             "100", "101", "999", "1000", "256", "65536", "4294967296", "4294967297", "4294967301",
             "18446744073709551616", "18446744073709551621", "1".repeat(150)}) {
@@ -312,10 +307,10 @@ public final class TextEdgesTest {
     }
 
     private static void bytesThatBeginNone() {
-        CHECKS.sentence(4, "of a byte that begins none");
+        sentence(4, "of a byte that begins none");
         for (int sign = 0; sign < 256; sign++) {
-            boolean beginsOne = sign == ' ' || sign == ';' || sign >= '0' && sign <= '9' || sign >= 'a' && sign <= 'z';
-            if (!beginsOne) {
+            boolean isOfAWord = sign >= 'a' && sign <= 'z' || sign >= '0' && sign <= '9';
+            if (!isOfAWord && sign != ' ' && sign != ';') {
                 String none = String.valueOf((char) sign);
                 faultAt("load 5; " + none + "load 6;", 8);
                 faultAt("load" + none + "5;", 4);
@@ -328,7 +323,7 @@ public final class TextEdgesTest {
     }
 
     private static void wordsThatAreNone() {
-        CHECKS.sentence(4, "a word that is none of these");
+        sentence(4, "a word that is none of these");
         for (String word : new String[] {"a", "z", "l", "loa", "loads", "load".repeat(2), "loae", "moad", "lodd",
             "tast", "taste", "tasters", "tasterr", "uaster", "h", "hea", "heats", "heap", "beat", "loadheat"}) {
             faultAt("load 5; " + word + " 5;", 8);
@@ -336,6 +331,9 @@ public final class TextEdgesTest {
             faultAt("load 5 " + word + ";", 7);
             faultAt(" " + word, 1);
         }
+        faultAt("loadz5;", 0);
+        faultAt("zload 5;", 0);
+        faultAt("loada5;", 0);
         faultAt("Load 5;", 0);
         faultAt("lOad 5;", 0);
         faultAt("loaD 5;", 0);
@@ -344,7 +342,7 @@ public final class TextEdgesTest {
     }
 
     private static void tokensThatCannotStand() {
-        CHECKS.sentence(4, "the place of the first byte of the first TOKEN that can't stand there");
+        sentence(4, "the place of the first byte of the first TOKEN that can't stand there");
         faultAt("5", 0);
         faultAt("  60 load;", 2);
         faultAt("load load 5;", 5);
@@ -365,7 +363,7 @@ public final class TextEdgesTest {
     }
 
     private static void sixthLoad() {
-        CHECKS.sentence(4, "a sixth load");
+        sentence(4, "a sixth load");
         faultAt(LOAD.repeat(5) + "load 1;", 35);
         faultAt(LOAD.repeat(5) + "  load", 37);
         faultAt(LOAD.repeat(5) + "load 99;", 35);
@@ -374,7 +372,7 @@ public final class TextEdgesTest {
     }
 
     private static void seventhTaster() {
-        CHECKS.sentence(4, "a seventh taster");
+        sentence(4, "a seventh taster");
         faultAt(TASTER.repeat(6) + TASTER, 90);
         faultAt(TASTER.repeat(6) + "  taster", 92);
         faultAt(TASTER.repeat(6) + "taster 0", 90);
@@ -382,7 +380,7 @@ public final class TextEdgesTest {
     }
 
     private static void heatToldAgain() {
-        CHECKS.sentence(4, "heat told again");
+        sentence(4, "heat told again");
         faultAt("heat 0;heat 0;", 7);
         faultAt("heat 5;heat 5;", 7);
         faultAt("heat 5; load 1; heat", 16);
@@ -394,7 +392,7 @@ public final class TextEdgesTest {
     }
 
     private static void tooEarly() {
-        CHECKS.sentence(4, "the text's length, if it ends too early");
+        sentence(4, "the text's length, if it ends too early");
         for (String text : new String[] {"load", "load 5", "heat", "heat 0", "taster", "taster 1", "taster 1 0",
             "taster 1 0 1", "taster 1 0 1 0", "load 5;load", "load 5;heat 1;taster 9", "  load  60"}) {
             faultAt(text, text.length());
@@ -405,7 +403,7 @@ public final class TextEdgesTest {
     }
 
     private static void firstFault() {
-        CHECKS.sentence(4, "the first TOKEN");
+        sentence(4, "the first TOKEN");
         faultAt("load 61;?", 5);
         faultAt("?load 61;", 0);
         faultAt("load 5;load 61;taster", 12);
@@ -416,7 +414,7 @@ public final class TextEdgesTest {
     }
 
     private static void faultChangesNothing() {
-        CHECKS.sentence(4, "nothing changes (THE TEXT, too, stays)");
+        sentence(4, "nothing changes (THE TEXT, too, stays)");
         faultAt("load 9;taster 9 9 9 3;heat 9;load 9", 35);
         faultAt(LOAD.repeat(5) + "heat 9;" + TASTER.repeat(6) + ";", 132);
         ThirstScales x = Worlds.typed("load 9");
@@ -434,7 +432,7 @@ public final class TextEdgesTest {
     }
 
     private static void textIsEmptyThen() {
-        CHECKS.sentence(4, "THE TEXT tells all, and is empty then");
+        sentence(4, "THE TEXT tells all, and is empty then");
         ThirstScales x = Worlds.typed("load 9;heat 3;");
         due("gate()", x.gate(), 2);
         due("count(5)", x.count(5), 0);
@@ -445,7 +443,7 @@ public final class TextEdgesTest {
     }
 
     private static void readAnewAsTold() {
-        CHECKS.sentence(4, "Read anew: as told");
+        sentence(4, "Read anew: as told");
         ThirstScales x = Worlds.most();
         Worlds.type(x, "load 3;load 4;load 5;load 6;load 8;heat 1;");
         due("five anew, none beside them", x.gate(), 6);
@@ -463,7 +461,7 @@ public final class TextEdgesTest {
     }
 
     private static void readAnewNotTold() {
-        CHECKS.sentence(4, "what is not told as at first");
+        sentence(4, "what is not told as at first");
         ThirstScales x = Worlds.read("heat 7;");
         Worlds.type(x, LOAD);
         x.gate();
@@ -489,12 +487,12 @@ public final class TextEdgesTest {
         x.mark(5, 0);
         Worlds.type(x, Worlds.MOST);
         x.gate();
-        CHECKS.sentence(4, "no LICKS");
+        sentence(4, "no LICKS");
         for (int t = 0; t <= 5; t++) {
             due("taster(" + t + ", 4)", x.taster(t, 4), 0);
         }
         due("night()", x.night(), 0);
-        CHECKS.sentence(4, "nothing known or told");
+        sentence(4, "nothing known or told");
         due("count(3)", x.count(3), 0);
         due("known(0, 0)", x.known(0, 0), -1);
         due("canBe(0, 0)", x.canBe(0, 0), 61);
@@ -503,63 +501,65 @@ public final class TextEdgesTest {
         due("count(4)", x.count(4), 0);
         due("learnt(0)", x.learnt(0), 3240);
         due("forget()", x.forget(), 0);
-        CHECKS.sentence(4, "IMAGES are gone");
+        sentence(4, "IMAGES are gone");
         due("back(0)", x.back(0), -2);
         due("back(1)", x.back(1), -2);
-        CHECKS.sentence(4, "THE TRACE stays");
+        sentence(4, "THE TRACE stays");
         due("trace()", x.trace(), 100001);
         ThirstScales empty = Worlds.busy();
         empty.clear();
         empty.gate();
-        CHECKS.sentence(4, "IMAGES are gone");
+        sentence(4, "IMAGES are gone");
         due("behind an empty text, too: back(0)", empty.back(0), -2);
-        CHECKS.sentence(4, "nothing known or told");
+        sentence(4, "nothing known or told");
         due("behind an empty text, too: count(3)", empty.count(3), 0);
         due("behind an empty text, too: count(4)", empty.count(4), 0);
-        CHECKS.sentence(4, "THE TRACE stays");
+        sentence(4, "THE TRACE stays");
         due("behind an empty text, too: trace()", empty.trace(), 10101);
         ThirstScales full = Worlds.full();
         full.clear();
         Worlds.type(full, Worlds.TEXT);
         full.gate();
-        CHECKS.sentence(4, "nothing known or told");
+        sentence(4, "nothing known or told");
         due("room for what is known", full.says(0, 0, 0), 1);
+        due("which is the first", full.known(0, 5), 1);
+        due("of all that is known", full.known(1, 5), -1);
         due("room for tastings", full.told(0, 0, 0, 0), 1);
     }
 
     private static void loads() {
-        CHECKS.sentence(5, "WEIGHT of a LOAD. BAD");
+        sentence(5, "WEIGHT of a LOAD. BAD");
         int[] weights = {20, 60, 0, 21, 7};
         for (int l = 0; l <= 4; l++) {
             due("load(" + l + ")", Worlds.most().load(l), weights[l]);
         }
-        for (int l : new int[] {-1, 5, 6, 256, Integer.MAX_VALUE, Integer.MIN_VALUE}) {
-            CHECKS.changesNothing("load(" + l + ")", -1, Worlds::most, x -> x.load(l));
+        for (int l : new int[] {-1, 5, 6, 256, FAR, LOW}) {
+            same("load(" + l + ")", -1, Worlds::most, x -> x.load(l));
         }
         due("the last of one", Worlds.read(LOAD).load(0), 1);
         due("one behind it", Worlds.read(LOAD).load(1), -1);
     }
 
     private static void tasters() {
-        CHECKS.sentence(6, "Of a TASTER: 0 A, 1 B, 2 D, 3 T, 4 LICKS. BAD");
+        sentence(6, "Of a TASTER: 0 A, 1 B, 2 D, 3 T, 4 LICKS. BAD");
         int[][] laws = {{1, 2, 7, 0}, {3, 5, 9, 2}, {9, 9, 1, 3}, {1, 0, 1, 0}, {1, 0, 9, 3}, {2, 0, 4, 1}};
         for (int t = 0; t <= 5; t++) {
             for (int what = 0; what <= 3; what++) {
                 due("taster(" + t + ", " + what + ")", Worlds.most().taster(t, what), laws[t][what]);
             }
         }
-        for (int t : new int[] {-1, 6, 7, 256, Integer.MAX_VALUE, Integer.MIN_VALUE}) {
-            CHECKS.changesNothing("taster(" + t + ", 0)", -1, Worlds::most, x -> x.taster(t, 0));
-            CHECKS.changesNothing("taster(" + t + ", 4)", -1, Worlds::most, x -> x.taster(t, 4));
+        for (int t : new int[] {-1, 6, 7, 256, FAR, LOW}) {
+            same("taster(" + t + ", 0)", -1, Worlds::most, x -> x.taster(t, 0));
+            same("taster(" + t + ", 4)", -1, Worlds::most, x -> x.taster(t, 4));
         }
-        for (int what : new int[] {-1, 5, 6, Integer.MAX_VALUE, Integer.MIN_VALUE}) {
-            CHECKS.changesNothing("taster(5, " + what + ")", -1, Worlds::most, x -> x.taster(5, what));
+        for (int what : new int[] {-1, 5, 6, FAR, LOW}) {
+            same("taster(5, " + what + ")", -1, Worlds::most, x -> x.taster(5, what));
         }
-        CHECKS.sentence(6, "LICKS of a TASTER [..] (0 at first)");
+        sentence(6, "LICKS of a TASTER [..] (0 at first)");
         for (int t = 0; t <= 5; t++) {
             due("taster(" + t + ", 4)", Worlds.most().taster(t, 4), 0);
         }
-        CHECKS.sentence(6, "how often he tasted since the last NIGHT");
+        sentence(6, "how often he tasted since the last NIGHT");
         ThirstScales x = Worlds.jugged(Worlds.most(), 5, 0, 3);
         x.weighs(5, 1);
         due("taster(5, 4)", x.taster(5, 4), 4);

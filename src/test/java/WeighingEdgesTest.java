@@ -1,11 +1,7 @@
-import java.util.function.Supplier;
-import java.util.function.ToLongFunction;
-
 /** Cups and weighings (promises 7 to 14): a test for each sentence that names an edge. */
-public final class WeighingEdgesTest {
-    private static final int[] OUTSIDE_TASTERS = {-1, 3, 4, 256, Integer.MAX_VALUE, Integer.MIN_VALUE};
+public final class WeighingEdgesTest extends Asking {
+    private static final int[] OUTSIDE_TASTERS = {-1, 3, 4, 256, FAR, LOW};
     private static final int[] OUTSIDE_LOADS = OUTSIDE_TASTERS;
-    private static final Checks CHECKS = new Checks();
 
     public static void main(String[] args) {
         cupsBounds();
@@ -35,45 +31,31 @@ public final class WeighingEdgesTest {
         CHECKS.end();
     }
 
-    private static void due(String call, long got, long want) {
-        CHECKS.due(call, got, want);
-    }
-
-    private static void same(String call, long want, Supplier<ThirstScales> world, ToLongFunction<ThirstScales> ask) {
-        CHECKS.changesNothing(call, want, world, ask);
-    }
-
-    /** Refused in a world with some of everything, and in one that is full, too. */
-    private static void bad(String call, ToLongFunction<ThirstScales> ask) {
-        same(call, -1, Worlds::busy, ask);
-        same(call + ", all full", -1, Worlds::full, ask);
-    }
-
     private static ThirstScales taster(String law) {
         return Worlds.read("load 20;load 60;load 0;taster " + law + ";taster 1 0 1 0;");
     }
 
     private static void cupsBounds() {
-        CHECKS.sentence(7, "a WEIGHT (0 .. 60), with LICKS (0 .. 99)");
+        sentence(7, "a WEIGHT (0 .. 60), with LICKS (0 .. 99)");
         same("cups(2, 0, 0)", 11, Worlds::busy, x -> x.cups(2, 0, 0));
         same("cups(2, 60, 0)", 551, Worlds::busy, x -> x.cups(2, 60, 0));
         same("cups(2, 60, 99)", 254, Worlds::busy, x -> x.cups(2, 60, 99));
         same("cups(2, 0, 99)", 11, Worlds::busy, x -> x.cups(2, 0, 99));
-        for (int number : new int[] {-1, 61, 62, 99, 256, Integer.MAX_VALUE, Integer.MIN_VALUE}) {
+        for (int number : new int[] {-1, 61, 62, 99, 256, FAR, LOW}) {
             bad("cups(0, " + number + ", 0)", x -> x.cups(0, number, 0));
         }
-        for (int number : new int[] {-1, 100, 101, 256, Integer.MAX_VALUE, Integer.MIN_VALUE}) {
+        for (int number : new int[] {-1, 100, 101, 256, FAR, LOW}) {
             bad("cups(0, 0, " + number + ")", x -> x.cups(0, 0, number));
         }
         for (int t : OUTSIDE_TASTERS) {
             bad("cups(" + t + ", 0, 0)", x -> x.cups(t, 0, 0));
         }
-        CHECKS.sentence(7, "with LICKS (0 .. 99)");
+        sentence(7, "with LICKS (0 .. 99)");
         due("his own do not matter", Worlds.jugged(taster("1 0 1 3"), 0, 1, 9).cups(0, 20, 0), 20);
     }
 
     private static void cupsOfTiredTongues() {
-        CHECKS.sentence(7, "(A times WEIGHT) less (T times LICKS), 0 at least");
+        sentence(7, "(A times WEIGHT) less (T times LICKS), 0 at least");
         ThirstScales x = taster("2 5 4 3");
         due("one more than 0", x.cups(0, 2, 1), 1);
         due("cups(0, 3, 1): 3 and 5", x.cups(0, 3, 1), 2);
@@ -90,7 +72,7 @@ public final class WeighingEdgesTest {
     }
 
     private static void cupsAreCut() {
-        CHECKS.sentence(7, "all together) by D (cut)");
+        sentence(7, "all together) by D (cut)");
         ThirstScales x = taster("1 3 4 0");
         x.heat(2);
         due("7 by 4", x.cups(0, 2, 0), 1);
@@ -103,7 +85,7 @@ public final class WeighingEdgesTest {
     }
 
     private static void cupsByHeat() {
-        CHECKS.sentence(7, "this HEAT");
+        sentence(7, "this HEAT");
         ThirstScales x = taster("9 9 1 0");
         due("no heat", x.cups(0, 60, 0), 549);
         x.heat(9);
@@ -113,7 +95,7 @@ public final class WeighingEdgesTest {
     }
 
     private static void weighsBounds() {
-        CHECKS.sentence(8, "BAD");
+        sentence(8, "BAD");
         for (int t : OUTSIDE_TASTERS) {
             bad("weighs(" + t + ", 0)", x -> x.weighs(t, 0));
         }
@@ -126,7 +108,7 @@ public final class WeighingEdgesTest {
     }
 
     private static void weighsALick() {
-        CHECKS.sentence(8, "he has one LICK more");
+        sentence(8, "he has one LICK more");
         ThirstScales x = Worlds.given();
         int[] cups = {7, 7, 7, 6};
         for (int i = 0; i < 4; i++) {
@@ -141,7 +123,7 @@ public final class WeighingEdgesTest {
     }
 
     private static void weighsIsKnown() {
-        CHECKS.sentence(8, "It is known (12 at most): the TASTER, LICKS ahead, HEAT, LOAD, CUPS");
+        sentence(8, "It is known (12 at most): the TASTER, LICKS ahead, HEAT, LOAD, CUPS");
         ThirstScales x = Worlds.given();
         x.weighs(1, 1);
         x.heat(9);
@@ -155,7 +137,7 @@ public final class WeighingEdgesTest {
     }
 
     private static void weighsTwelve() {
-        CHECKS.sentence(8, "It is known (12 at most)");
+        sentence(8, "It is known (12 at most)");
         ThirstScales x = Worlds.given();
         for (int i = 1; i <= 12; i++) {
             due("weighing " + i, x.weighs(0, 0), 3);
@@ -169,13 +151,13 @@ public final class WeighingEdgesTest {
             int taster = t;
             same("weighs(" + t + ", 1)", -3, Worlds::full, y -> y.weighs(taster, 1));
         }
-        CHECKS.sentence(8, "the first of these: BAD [..], STATE (as told), FULL");
+        sentence(8, "the first of these: BAD [..], STATE (as told), FULL");
         same("weighs(3, 0)", -1, Worlds::full, y -> y.weighs(3, 0));
         same("weighs(0, 3)", -1, Worlds::full, y -> y.weighs(0, 3));
     }
 
     private static void manyLicks() {
-        CHECKS.sentence(8, "LICKS of a TASTER: how often he tasted since the last NIGHT");
+        sentence(8, "LICKS of a TASTER: how often he tasted since the last NIGHT");
         ThirstScales x = Worlds.jugged(Worlds.given(), 2, 0, 120);
         due("with 120 licks", x.weighs(2, 1), 191);
         due("known(0, 1)", x.known(0, 1), 120);
@@ -194,10 +176,10 @@ public final class WeighingEdgesTest {
     }
 
     private static void saysBounds() {
-        CHECKS.sentence(9, "says some cups (0 .. 99)");
+        sentence(9, "says some cups (0 .. 99)");
         due("says(0, 0, 0)", Worlds.given().says(0, 0, 0), 1);
         due("says(2, 2, 99)", Worlds.given().says(2, 2, 99), 1);
-        for (int cups : new int[] {-1, 100, 101, 999, Integer.MAX_VALUE, Integer.MIN_VALUE}) {
+        for (int cups : new int[] {-1, 100, 101, 999, FAR, LOW}) {
             bad("says(0, 0, " + cups + ")", x -> x.says(0, 0, cups));
         }
         for (int t : OUTSIDE_TASTERS) {
@@ -209,7 +191,7 @@ public final class WeighingEdgesTest {
     }
 
     private static void saysNoLick() {
-        CHECKS.sentence(9, "SAID (it is known likewise) [..] no LICK");
+        sentence(9, "SAID (it is known likewise) [..] no LICK");
         ThirstScales x = Worlds.given();
         x.weighs(1, 0);
         due("says(1, 2, 99)", x.says(1, 2, 99), 2);
@@ -226,7 +208,7 @@ public final class WeighingEdgesTest {
     }
 
     private static void saysTwelve() {
-        CHECKS.sentence(9, "(it is known likewise) [..] (12 at most)");
+        sentence(9, "(it is known likewise) [..] (12 at most)");
         ThirstScales x = Worlds.given();
         for (int i = 1; i <= 12; i++) {
             due("saying " + i, x.says(2, 1, 50), i);
@@ -237,7 +219,7 @@ public final class WeighingEdgesTest {
         due("count(3)", x.count(3), 12);
         same("says(0, 0, 0)", -3, Worlds::full, y -> y.says(0, 0, 0));
         same("says(2, 2, 99)", -3, Worlds::full, y -> y.says(2, 2, 99));
-        CHECKS.sentence(9, "the first of these: BAD [..], STATE (as told), FULL");
+        sentence(9, "the first of these: BAD [..], STATE (as told), FULL");
         same("says(0, 0, 100)", -1, Worlds::full, y -> y.says(0, 0, 100));
         same("says(0, 0, -1)", -1, Worlds::full, y -> y.says(0, 0, -1));
         same("says(3, 0, 0)", -1, Worlds::full, y -> y.says(3, 0, 0));
@@ -245,7 +227,7 @@ public final class WeighingEdgesTest {
     }
 
     private static void jugBounds() {
-        CHECKS.sentence(10, "ONE JUG (c 0 .. 999; [..] BAD (one and the same, too)");
+        sentence(10, "ONE JUG (c 0 .. 999; [..] BAD (one and the same, too)");
         for (int t : OUTSIDE_TASTERS) {
             bad("jug(" + t + ", 0, 0, 5, 0)", x -> x.jug(t, 0, 0, 5, 0));
             bad("jug(0, " + t + ", 0, 5, 0)", x -> x.jug(0, t, 0, 5, 0));
@@ -259,10 +241,10 @@ public final class WeighingEdgesTest {
         for (int l : OUTSIDE_LOADS) {
             bad("jug(0, 1, " + l + ", 5, 0)", x -> x.jug(0, 1, l, 5, 0));
         }
-        for (int c : new int[] {-1, 1000, 1001, Integer.MAX_VALUE, Integer.MIN_VALUE}) {
+        for (int c : new int[] {-1, 1000, 1001, FAR, LOW}) {
             bad("jug(0, 1, 0, " + c + ", 0)", x -> x.jug(0, 1, 0, c, 0));
         }
-        for (int what : new int[] {-1, 2, 3, Integer.MAX_VALUE, Integer.MIN_VALUE}) {
+        for (int what : new int[] {-1, 2, 3, FAR, LOW}) {
             bad("jug(0, 1, 0, 5, " + what + ")", x -> x.jug(0, 1, 0, 5, what));
         }
         due("the last ones", Worlds.given().jug(2, 1, 2, 999, 0), 11);
@@ -270,7 +252,7 @@ public final class WeighingEdgesTest {
     }
 
     private static void jugRunsOut() {
-        CHECKS.sentence(10, "each drinks CUPS, as long as there are any");
+        sentence(10, "each drinks CUPS, as long as there are any");
         int[][] drunk = {{0, 0, 0}, {1, 1, 0}, {2, 2, 0}, {3, 3, 0}, {4, 4, 1}, {9, 9, 6}, {10, 10, 7}, {11, 10, 7},
             {999, 10, 7}};
         for (int[] row : drunk) {
@@ -292,7 +274,7 @@ public final class WeighingEdgesTest {
     }
 
     private static void jugLicks() {
-        CHECKS.sentence(10, "both have a LICK more, of 0 cups, too, whatever what is");
+        sentence(10, "both have a LICK more, of 0 cups, too, whatever what is");
         for (int what = 0; what <= 1; what++) {
             for (int c : new int[] {0, 1, 3, 999}) {
                 ThirstScales x = Worlds.given();
@@ -303,7 +285,7 @@ public final class WeighingEdgesTest {
                 due("night() of " + c, x.night(), 2);
             }
         }
-        CHECKS.sentence(10, "(both with their LICKS;");
+        sentence(10, "(both with their LICKS;");
         ThirstScales x = Worlds.jugged(Worlds.given(), 1, 2, 3);
         due("both tired: 6 of 191 less 9", x.jug(1, 2, 0, 999, 0), 6 + 182);
         due("the second: 191 less 12", x.jug(1, 2, 0, 999, 1), 179);
@@ -312,7 +294,7 @@ public final class WeighingEdgesTest {
     }
 
     private static void jugIsNotKnown() {
-        CHECKS.sentence(10, "it is not known");
+        sentence(10, "it is not known");
         ThirstScales x = Worlds.given();
         x.jug(0, 1, 0, 999, 0);
         due("count(3)", x.count(3), 0);
@@ -326,7 +308,7 @@ public final class WeighingEdgesTest {
     }
 
     private static void nights() {
-        CHECKS.sentence(11, "how many LICKS of all TASTERS there were");
+        sentence(11, "how many LICKS of all TASTERS there were");
         due("nobody", new ThirstScales().night(), 0);
         due("nobody tasted", Worlds.most().night(), 0);
         ThirstScales x = Worlds.most();
@@ -334,7 +316,7 @@ public final class WeighingEdgesTest {
             Worlds.jugged(x, t, t + 1, 1 << t);
         }
         due("of all six", x.night(), 62);
-        CHECKS.sentence(11, "A NIGHT: no LICKS");
+        sentence(11, "A NIGHT: no LICKS");
         for (int t = 0; t <= 5; t++) {
             due("taster(" + t + ", 4)", x.taster(t, 4), 0);
         }
@@ -347,7 +329,7 @@ public final class WeighingEdgesTest {
     }
 
     private static void heats() {
-        CHECKS.sentence(12, "HEAT becomes h: what it was. BAD");
+        sentence(12, "HEAT becomes h: what it was. BAD");
         ThirstScales x = new ThirstScales();
         int was = 0;
         for (int h : new int[] {9, 0, 1, 8, 8, 9}) {
@@ -356,13 +338,13 @@ public final class WeighingEdgesTest {
             was = h;
         }
         due("what the text told", Worlds.given().heat(0), 2);
-        for (int h : new int[] {-1, 10, 11, 99, Integer.MAX_VALUE, Integer.MIN_VALUE}) {
+        for (int h : new int[] {-1, 10, 11, 99, FAR, LOW}) {
             bad("heat(" + h + ")", y -> y.heat(h));
         }
     }
 
     private static void undoNothing() {
-        CHECKS.sentence(13, "STATE: nothing is");
+        sentence(13, "STATE: nothing is");
         same("undo()", -2, ThirstScales::new, x -> x.undo());
         same("undo()", -2, Worlds::most, x -> x.undo());
         same("undo() behind a jug", -2, () -> Worlds.jugged(Worlds.given(), 0, 1, 2), x -> x.undo());
@@ -374,7 +356,7 @@ public final class WeighingEdgesTest {
     }
 
     private static void undoLicks() {
-        CHECKS.sentence(13, "if it was WEIGHED, that TASTER has one LICK less (0 at least)");
+        sentence(13, "if it was WEIGHED, that TASTER has one LICK less (0 at least)");
         ThirstScales x = Worlds.jugged(Worlds.given(), 1, 2, 3);
         x.weighs(1, 0);
         x.says(1, 0, 5);
@@ -398,7 +380,7 @@ public final class WeighingEdgesTest {
     }
 
     private static void undoTheLatest() {
-        CHECKS.sentence(13, "UNDONE: the latest that is known [..]: it is known no more");
+        sentence(13, "UNDONE: the latest that is known [..]: it is known no more");
         ThirstScales x = Worlds.given();
         x.weighs(0, 0);
         x.weighs(1, 1);
@@ -415,7 +397,7 @@ public final class WeighingEdgesTest {
     }
 
     private static void undoMakesRoom() {
-        CHECKS.sentence(13, "how much is known yet");
+        sentence(13, "how much is known yet");
         ThirstScales x = Worlds.full();
         for (int left = 11; left >= 0; left--) {
             due("undo()", x.undo(), left);
@@ -432,11 +414,11 @@ public final class WeighingEdgesTest {
     }
 
     private static void knownBounds() {
-        CHECKS.sentence(14, "Of the i-th that is known: [..] 5 whether it was SAID. BAD");
-        for (int i : new int[] {-1, 4, 5, 11, 12, Integer.MAX_VALUE, Integer.MIN_VALUE, 1 << 30, 715827883}) {
+        sentence(14, "Of the i-th that is known: [..] 5 whether it was SAID. BAD");
+        for (int i : new int[] {-1, 4, 5, 11, 12, FAR, LOW, 1 << 30, 715827883}) {
             same("known(" + i + ", 0)", -1, Worlds::busy, x -> x.known(i, 0));
         }
-        for (int what : new int[] {-1, 6, 7, Integer.MAX_VALUE, Integer.MIN_VALUE}) {
+        for (int what : new int[] {-1, 6, 7, FAR, LOW}) {
             bad("known(0, " + what + ")", x -> x.known(0, what));
         }
         due("the first of none", Worlds.most().known(0, 0), -1);
@@ -445,7 +427,7 @@ public final class WeighingEdgesTest {
     }
 
     private static void knownAsItWas() {
-        CHECKS.sentence(14, "0 TASTER, 1 LICKS, 2 HEAT, 3 LOAD, 4 CUPS, 5 whether it was SAID");
+        sentence(14, "0 TASTER, 1 LICKS, 2 HEAT, 3 LOAD, 4 CUPS, 5 whether it was SAID");
         ThirstScales x = Worlds.full();
         for (int i = 0; i < 12; i++) {
             int[] weighed = {1, i / 2, 2, 0, i < 6 ? 7 : 6, 0};
@@ -454,7 +436,7 @@ public final class WeighingEdgesTest {
                 due("known(" + i + ", " + what + ")", x.known(i, what), (i % 2 == 0 ? weighed : said)[what]);
             }
         }
-        ThirstScales most = Worlds.read("load 60;load 60;load 60;load 60;load 60;" + "taster 9 9 1 0;".repeat(6) + "heat 9;");
+        ThirstScales most = Worlds.read("load 60;".repeat(5) + "taster 9 9 1 0;".repeat(6) + "heat 9;");
         most.weighs(5, 4);
         int[] greatest = {5, 0, 9, 4, 558, 0};
         for (int what = 0; what <= 5; what++) {
