@@ -204,6 +204,7 @@ public final class LawEdgesTest extends Asking {
         may("by two", told(10, 0, 0, 4, 60, 0, 0, 20), 30, 0, 0, 10, 10);
         may("by three", told(10, 0, 0, 4, 60, 0, 0, 20, 60, 9, 0, 17), 30, 5, 5, 9, 10);
         may("by one law, no cups", told(60, 0, 9, 69, 0, 0, 0, 0, 60, 1, 0, 59), 9, 9, 0, 0, 0);
+        may("by every T, none below 0 or above 3", told(60, 0, 9, 69, 0, 0, 0, 0), 60, 9, 9, 42, 69);
         may("by the first law alone", told(60, 0, 9, 69, 0, 0, 0, 0, 60, 9, 0, 60), 60, 9, 9, 69, 69);
         may("by one law, all he can", told(60, 0, 9, 558, 60, 1, 9, 555), 60, 9, 9, 531, 531);
     }
